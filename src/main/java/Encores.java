@@ -19,6 +19,7 @@ public final class Encores {
   private static final int MOST_OPEN = 8;
   private static final int MOST_PAST = 6;
   private static final int IN_THOUGHT = 500;
+  private static final int NEVER_REACHED = 1000000;
   private static final int PRIME = 1000000007;
 
   // the columns of a HEARER, as of() asks for them
@@ -142,6 +143,8 @@ public final class Encores {
   private final Fewest fewest;
   private final Seats seats;
   private final Programme programme;
+  // of the sets that fit, in how many each HEARER is
+  private final int[] with = new int[MOST_HEARERS];
 
   public Encores() {
     house = new House();
@@ -457,9 +460,7 @@ public final class Encores {
 
   private int fewestAway(int deed, int k) {
     before.keep(house);
-    stage.thinking = true;
     fewest.prepare(deed, k);
-    stage.thinking = false;
     before.back(house);
     return fewest.away(k);
   }
@@ -606,6 +607,7 @@ public final class Encores {
     if (!within(what, 0, 3)) {
       return NONE;
     }
+    clearWith();
     int many = 0;
     int least = NONE;
     int greatest = NONE;
@@ -614,6 +616,7 @@ public final class Encores {
         many++;
         least = least == NONE ? set : least;
         greatest = set;
+        countWith(set);
       }
     }
     switch (what) {
@@ -637,28 +640,30 @@ public final class Encores {
     return true;
   }
 
+  private void clearWith() {
+    for (int h = 0; h < with.length; h++) {
+      with[h] = 0;
+    }
+  }
+
+  private void countWith(int set) {
+    for (int h = 0; h < with.length; h++) {
+      with[h] += isIn(h, set) ? 1 : 0;
+    }
+  }
+
   private int whomToAsk(int many) {
     int best = NONE;
-    int least = many + 1;
-    for (int h = 0; h < house.hearers.lines; h++) {
-      int with = fittingWith(h);
-      int greater = Math.max(with, many - with);
+    int least = many;
+    for (int h = 0; h < house.hearers.lines && h < with.length; h++) {
+      int greater = Math.max(with[h], many - with[h]);
+      // of two sets or more somebody is in one and not in another, so that he comes below many
       if (greater < least) {
         least = greater;
         best = h;
       }
     }
     return best;
-  }
-
-  private int fittingWith(int hearer) {
-    int many = 0;
-    for (int set = 0; set < 1 << house.hearers.lines; set++) {
-      if (isIn(hearer, set) && couldBePaid(set)) {
-        many++;
-      }
-    }
-    return many;
   }
 
   public int brides() {
@@ -1579,9 +1584,9 @@ public final class Encores {
       ask(ASK_PAID, of ? house.hearers.at(hearer, PAID) : 0);
       ask(ASK_WORTH, house.deeds.at(deed, WORTH));
       ask(ASK_WEAR, house.deeds.at(deed, WEAR));
-      ask(ASK_AGAINS, house.hour(AGAINS));
+      ask(ASK_AGAINS, house.hour.at(0, AGAINS));
       ask(ASK_BESIDE, beside);
-      ask(ASK_LATE, house.hour(MINUTE) / 60);
+      ask(ASK_LATE, house.hour.at(0, MINUTE) / 60);
     }
 
     private void ask(int value, int v) {
@@ -1756,12 +1761,14 @@ public final class Encores {
       for (int round = 0; round <= MOST_HEARERS && begun; round++) {
         int already = clapping;
         for (int h = 0; h < house.hearers.lines && h < own.length && h < beside.length; h++) {
-          int now = Integer.bitCount(house.hearers.at(h, BESIDE) & clapping);
-          // with as many beside him as when he was last asked he would answer the same
-          if (isIn(h, ready & ~clapping) && beside[h] != now) {
-            beside[h] = now;
+          if (isIn(h, ready & ~clapping)) {
+            int now = Integer.bitCount(house.hearers.at(h, BESIDE) & clapping);
             int drawn = thinking ? IN_THOUGHT : own[h];
-            clapping |= drawn < law.clap(h, deed, now) ? 1 << h : 0;
+            // with as many beside him as when he was last asked he would answer the same
+            if (beside[h] != now && drawn < law.clap(h, deed, now)) {
+              clapping |= 1 << h;
+            }
+            beside[h] = now;
           }
         }
         begun = clapping != already;
@@ -1808,6 +1815,7 @@ public final class Encores {
     private final Table claps = new Table(5, MOST_HEARERS);
     private final Table due = new Table(5, 1);
     private int ready;
+    private boolean hopeless;
 
     Fewest(House house, Law law, Stage stage) {
       this.house = house;
@@ -1820,37 +1828,41 @@ public final class Encores {
       claps.lines = 0;
       due.lines = 0;
       ready = 0;
-      int those = house.those(THERE) & ~house.those(GLOVES);
+      hopeless = false;
       for (int time = 0; time < k; time++) {
         stage.begin(deed);
-        int loud = law.ofDeed(LOUD_WORD, deed);
-        due.add(house.mayGoOn() ? house.handsDue() - loud : Integer.MAX_VALUE, 0, 0, 0);
-        claps.add(0, 0, 0, 0);
-        for (int h = 0; h < house.hearers.lines; h++) {
-          int bits = isIn(h, those) ? clapsAt(h, deed) : 0;
-          claps.put(time, h, bits);
-          // whoever never claps need not be silenced
-          ready |= bits != 0 ? 1 << h : 0;
-        }
+        int hands = house.mayGoOn() ? house.handsDue() - law.ofDeed(LOUD_WORD, deed) : NEVER_REACHED;
+        due.add(hands, 0, 0, 0);
+        int may = prepareClaps(time, deed);
+        // whoever never claps need not be silenced
+        ready |= may;
+        // all the hands that there may be are too few to go on, or none at all are enough when it should end
+        hopeless |= time < k - 1 ? stage.handsOf(may) < hands : hands <= 0;
       }
     }
 
-    private int clapsAt(int h, int deed) {
-      int bits = 0;
-      int many = Integer.bitCount(house.hearers.at(h, BESIDE));
-      for (int beside = 0; beside <= many; beside++) {
-        if (law.clap(h, deed, beside) > IN_THOUGHT) {
-          bits |= 1 << beside;
+    /** Who may clap at all. */
+    private int prepareClaps(int time, int deed) {
+      int those = house.those(THERE) & ~house.those(GLOVES);
+      int may = 0;
+      claps.add(0, 0, 0, 0);
+      for (int h = 0; h < house.hearers.lines; h++) {
+        int most = isIn(h, those) ? Integer.bitCount(house.hearers.at(h, BESIDE)) : NONE;
+        int bits = 0;
+        for (int beside = 0; beside <= most; beside++) {
+          bits |= law.clap(h, deed, beside) > IN_THOUGHT ? 1 << beside : 0;
         }
+        claps.put(time, h, bits);
+        may |= bits != 0 ? 1 << h : 0;
       }
-      return bits;
+      return may;
     }
 
     /** The set to be silenced so that what was prepared is done just k times, or NONE. */
     int away(int k) {
       int best = NONE;
       int set = 0;
-      for (int i = 0; i < 1 << MOST_HEARERS; i++) {
+      for (int i = 0; i < 1 << MOST_HEARERS && !hopeless; i++) {
         boolean fewer = best == NONE || Integer.bitCount(set) < Integer.bitCount(best);
         if (fewer && isDone(k, ready & ~set)) {
           best = set;
@@ -1880,9 +1892,9 @@ public final class Encores {
       for (int round = 0; round <= MOST_HEARERS && begun; round++) {
         int already = clapping;
         for (int h = 0; h < house.hearers.lines; h++) {
-          int beside = Integer.bitCount(house.hearers.at(h, BESIDE) & clapping);
-          if (isIn(h, those & ~clapping) && isIn(beside, claps.at(time, h))) {
-            clapping |= 1 << h;
+          if (isIn(h, those & ~clapping)) {
+            int beside = Integer.bitCount(house.hearers.at(h, BESIDE) & clapping);
+            clapping |= isIn(beside, claps.at(time, h)) ? 1 << h : 0;
           }
         }
         begun = clapping != already;
@@ -1912,6 +1924,9 @@ public final class Encores {
           if (isIn(h, set)) {
             wider |= house.hearers.at(h, BESIDE) & those;
           }
+        }
+        if (wider == set) {
+          return set;
         }
         set = wider;
       }
