@@ -247,6 +247,20 @@ public final class PromiseTest {
     x.let(1, true);
     due("0, then 1, then 2 in one round", x.settles(0, 1), 1);
     due("who claps", x.settles(0, 0), 7);
+    // a chain of twelve, from its end on: one more in each round
+    Encores z = people(12, 1);
+    String chain = "";
+    for (int h = 0; h < 11; h++) chain += "hearer " + h + " beside " + (h + 1) + ";";
+    text(z, 3, chain);
+    text(z, 0, "clap 1000 when hearer = 11 or beside > 0; clap 0;");
+    text(z, 1, "most 0;");
+    due("twelve rounds", z.settles(0, 1), 12);
+    due("all", z.settles(0, 0), 4095);
+    due("near", z.near(0, 12), 4095);
+    due("near", z.near(0, 10), 2047);
+    due("one group", z.groups(1), 4095);
+    z.perform(0);
+    due("twelve hands and loud", z.book(0, 3), 13);
     // all HEARERS that are THERE draw, with gloves too, each once, before COUGHS
     Encores y = people(3, 1);
     y.glove(0, true);
@@ -474,6 +488,12 @@ public final class PromiseTest {
     fails(x, 0, times(17, "loud 1;"), 3, 112);
     reads(x, 0, times(16, "loud 1;"), 16);
     fails(x, 0, times(15, "loud 1;") + "loud" + times(290, " ") + "1", 1, 400);
+    reads(x, 0, "loud1" + times(197, "*1") + ";", 1);
+    due("the longest product", x.deedOf(0, 5), 1);
+    reads(x, 0, "loud 7 when 1=1" + times(48, " and 1=1") + ";", 1);
+    due("the longest row of conditions", x.deedOf(0, 5), 7);
+    reads(x, 0, "loud 8 when 1=2 or not(not(not(not(1=2 or 3=3 and 7=1+2*3)and 1=1)or 1=2)and 1=1);", 1);
+    due("the deepest condition", x.deedOf(0, 5), 8);
     due("a text of 400 bytes", text(x, 0, times(15, "loud 1;") + "loud" + times(289, " ") + "1;"), 16);
   }
 
