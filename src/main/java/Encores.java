@@ -17,6 +17,10 @@ public final class Encores {
   private static final int MOST_LINES = 16;
   private static final int MOST_BYTES = 400;
   private static final int MOST_OPEN = 8;
+  // a token, the text's end too, is looked at by two steps at most: one that leaves it, one that takes it or blames it
+  private static final int MOST_STEPS = 2 * (MOST_BYTES + 1);
+  // outside and in each ( an or and an and may wait, innermost a comparison, a sum and a product, and what comes last
+  private static final int MOST_VALUES = 2 * (MOST_OPEN + 1) + 4;
   private static final int MOST_PAST = 6;
   private static final int IN_THOUGHT = 500;
   private static final int NEVER_REACHED = 1000000;
@@ -1368,7 +1372,7 @@ public final class Encores {
       side = ALONE;
       lines.put(line, 1, code.lines);
       int expected = UNIT;
-      for (int i = 0; i <= MOST_BYTES && expected != FINISHED && fault == 0; i++) {
+      for (int i = 0; i < MOST_STEPS && expected != FINISHED && fault == 0; i++) {
         switch (expected) {
           case CONDITION:
             expected = readCondition();
@@ -1551,7 +1555,7 @@ public final class Encores {
   private static final class Law {
     private final House house;
     private final int[] asked = new int[ASKED];
-    private final int[] stack = new int[64];
+    private final int[] stack = new int[MOST_VALUES];
 
     Law(House house) {
       this.house = house;

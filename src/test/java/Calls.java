@@ -167,6 +167,43 @@ final class Calls {
       return "hearer " + number(h) + " beside " + number(h) + ";";
     }
 
+    private String shortUnit() {
+      return random.nextInt(30) == 0 ? one(VALUES) : "" + random.nextInt(10);
+    }
+
+    private String shortSum() {
+      StringBuilder s = new StringBuilder(shortUnit());
+      while (random.nextInt(9) == 0)
+        s.append(random.nextInt(4) == 0 ? "/" + (1 + random.nextInt(9)) : one("+", "-", "*") + shortUnit());
+      return s.toString();
+    }
+
+    /** One line of THE LAW, with hardly a blank, of about so many bytes: what it takes most steps to read. */
+    String longLine(int bytes) {
+      StringBuilder s = new StringBuilder(one("loud", "clap", "wears") + shortUnit());
+      if (random.nextInt(6) == 0) {
+        while (s.length() < bytes - 1) s.append(one("+", "-", "*")).append(shortUnit());
+        return s.append(";").toString();
+      }
+      s.append("when");
+      int depth = 0;
+      boolean plain = random.nextInt(3) == 0;
+      while (true) {
+        int rare = plain ? 90 : 5;
+        while (depth < 8 && random.nextInt(rare) == 0) {
+          s.append("(");
+          depth++;
+        }
+        if (depth < 8 && random.nextInt(rare) == 0) s.append("not ");
+        s.append(plain ? shortUnit() : shortSum()).append(one("<", "=", ">")).append(plain ? shortUnit() : shortSum());
+        for (; depth > 0 && random.nextInt(4) == 0; depth--) s.append(")");
+        if (s.length() + depth + 1 >= bytes - random.nextInt(9)) break;
+        s.append(plain && random.nextInt(9) > 0 ? "or" : one("or", "or", "and"));
+        if (random.nextInt(40) == 0) s.append(" ");
+      }
+      return s.append(")".repeat(depth)).append(";").toString();
+    }
+
     String of(int k, int hearers, int deeds) {
       StringBuilder s = new StringBuilder();
       int lines = random.nextInt(20) == 0 ? 17 : random.nextInt(k == 0 ? 6 : 12);

@@ -137,32 +137,51 @@ public final class ModelTest {
     return run(0, 0, 0);
   }
 
+  /** Long lines of THE LAW, up to the last byte and beyond, and what they tell. */
+  private boolean readLong() {
+    for (int i = 0; i < 8; i++) {
+      StringBuilder law = new StringBuilder();
+      int lines = 1 + below(3);
+      for (int line = 0; line < lines; line++) law.append(texts.longLine((330 + below(75)) / lines));
+      if (below(4) == 0) law.setCharAt(below(law.length()), "1=(;o ".charAt(below(6)));
+      if (below(3) == 0) law.append(" ".repeat(400));
+      law.setLength(Math.min(400, law.length()));
+      calls.read(law.toString(), 0);
+      for (int h = 0; h < 4; h++) calls.call(13, h, 10 + below(3), 0, 0, 0);
+      for (int d = 0; d < 3; d++) for (int what = 5; what <= 6; what++) calls.call(14, d, what, 0, 0, 0);
+    }
+    return run(0, 0, 0);
+  }
+
+  /** Four HEARERS and three DEEDS, all unlike. */
+  private static ModelTest few(long seed) {
+    ModelTest test = new ModelTest(seed);
+    for (int i = 0; i < 4; i++) test.calls.call(1, i, 9 - i, i * 2, 0, 0);
+    for (int i = 0; i < 3; i++) test.calls.call(2, 9 - i, 5 + i, i, 0, 0);
+    return test;
+  }
+
+  private static void passed(boolean is, String which) {
+    if (is) return;
+    System.out.println(which);
+    System.exit(1);
+  }
+
   public static void main(String[] args) {
     int runs = args.length > 0 ? Integer.parseInt(args[0]) : 240;
     int first = args.length > 1 ? Integer.parseInt(args[1]) : 0;
     for (int seed = first; seed < first + runs; seed++) {
       int hearers = seed % 13;
       int deeds = seed / 13 % 9;
-      if (!new ModelTest(seed).run(hearers > 8 && seed % 3 > 0 ? hearers - 8 : hearers, deeds, 400)) {
-        System.out.println("seed " + seed);
-        System.exit(1);
-      }
+      passed(new ModelTest(seed).run(hearers > 8 && seed % 3 > 0 ? hearers - 8 : hearers, deeds, 400), "seed " + seed);
     }
     for (int seed = first; seed < first + runs * 10; seed++) {
-      ModelTest test = new ModelTest(-seed - 1);
-      for (int i = 0; i < 4; i++) test.calls.call(1, i, 9 - i, i * 2, 0, 0);
-      for (int i = 0; i < 3; i++) test.calls.call(2, 9 - i, 5 + i, i, 0, 0);
-      if (!test.readMany()) {
-        System.out.println("texts of seed " + seed);
-        System.exit(1);
-      }
+      passed(few(-seed - 1).readMany(), "texts of seed " + seed);
+      passed(few(seed * 17L + 3).readLong(), "long lines of seed " + seed);
     }
     for (int seed = first; seed < first + runs * 2; seed++) {
-      if (!new ModelTest(seed * 31L + 7).think(1 + seed % 8, 1 + seed % 4)) {
-        System.out.println("thoughts of seed " + seed);
-        System.exit(1);
-      }
+      passed(new ModelTest(seed * 31L + 7).think(1 + seed % 8, 1 + seed % 4), "thoughts of seed " + seed);
     }
-    System.out.println(runs + " runs, " + runs * 10 + " rows of texts and " + runs * 2 + " thoughts are alike");
+    System.out.println(runs + " runs, " + runs * 10 + " rows of texts, as many of long lines and " + runs * 2 + " thoughts are alike");
   }
 }

@@ -458,6 +458,7 @@ public final class PromiseTest {
     reads(x, 0, "loud 1 when (not 1=1 or not 1=1 and not 1=1 or not 1=1 or not 1=1 or not 1=1 or not 1=1 or not 1=1);", 1);
     statuteTexts(x);
     plainTexts(x);
+    longTexts(x);
   }
 
   private static String times(int n, String s) {
@@ -495,6 +496,63 @@ public final class PromiseTest {
     reads(x, 0, "loud 8 when 1=2 or not(not(not(not(1=2 or 3=3 and 7=1+2*3)and 1=1)or 1=2)and 1=1);", 1);
     due("the deepest condition", x.deedOf(0, 5), 8);
     due("a text of 400 bytes", text(x, 0, times(15, "loud 1;") + "loud" + times(289, " ") + "1;"), 16);
+  }
+
+  /** A text filled up with blanks to all the bytes that there can be. */
+  private static String full(String text) {
+    return text + times(400 - text.length(), " ");
+  }
+
+  /** Lines as long as the TAPE lets them be: nothing but its 400 bytes bounds them. */
+  private static void longTexts(Encores x) {
+    reads(x, 0, full("loud1when1=1" + times(66, "or1=1") + ";"), 1);
+    due("a row of or", x.deedOf(0, 5), 1);
+    reads(x, 0, full("loud1when1=1" + times(77, "or1=1") + ";"), 1);
+    due("the longest row of or", x.deedOf(0, 5), 1);
+    reads(x, 0, full("loud4when1=2" + times(76, "or1=2") + "or1=1;"), 1);
+    due("the last of the longest row of or", x.deedOf(0, 5), 4);
+    reads(x, 0, full("loud1when1=1" + times(64, "and1=1") + ";"), 1);
+    due("the longest row of and", x.deedOf(0, 5), 1);
+    reads(x, 0, full("loud1when1=1" + times(63, "and1=1") + "and1=2;"), 1);
+    due("the last of the longest row of and", x.deedOf(0, 5), 3);
+    reads(x, 0, full("loud9when1=2" + times(41, "or not1=1") + "or not1=2;"), 1);
+    due("the longest row of not", x.deedOf(0, 5), 9);
+    reads(x, 0, full("loud9when1=2" + times(54, "or(1=2)") + "or(1=1);"), 1);
+    due("the longest row of (", x.deedOf(0, 5), 9);
+    reads(x, 0, full("loud9when1=1" + times(35, "or1=2and1=1") + ";"), 1);
+    due("or and and by turns", x.deedOf(0, 5), 9);
+    reads(x, 0, full("loud1" + times(196, "+1") + ";"), 1);
+    due("197, held to 99", x.deedOf(0, 5), 99);
+    reads(x, 0, full("loud9when1" + times(93, "+1") + "=1" + times(93, "+1") + ";"), 1);
+    due("94 are 94", x.deedOf(0, 5), 9);
+    reads(x, 0, "loud9999" + times(195, "/1") + ";", 1);
+    due("9999 by 1, held to 99", x.deedOf(0, 5), 99);
+    reads(x, 0, times(16, "loud1when1=2" + "or1=2" + "or1=2;"), 16);
+    due("none of 16 lines", x.deedOf(0, 5), 3);
+    // in each of eight brackets an or and an and wait for it
+    String deep = times(8, "1=2or1=1and(") + "1=2or1=1and3=1+1*2" + times(8, ")");
+    reads(x, 0, full("loud6when" + deep + ";loud5;"), 2);
+    due("all that may wait at once", x.deedOf(0, 5), 6);
+    reads(x, 0, full("loud6when" + deep + "and" + deep + ";loud5;"), 2);
+    due("twice", x.deedOf(0, 5), 6);
+    // the first FAULT of a long line is where it stands
+    fails(x, 0, "loud1when1=1" + times(66, "or1=1") + "or;", 1, 344);
+    fails(x, 0, "loud1when1=1" + times(77, "or1=1"), 1, 397);
+    fails(x, 0, full("loud1when1=1" + times(77, "or1=1")), 1, 400);
+    fails(x, 0, "loud1when1=1" + times(75, "or1=1") + "or1/0=1;", 2, 391);
+    fails(x, 0, "loud1when1=1" + times(74, "or1=1") + "or" + times(3, " not") + ";", 1, 396);
+    fails(x, 0, "loud1when1=1" + times(74, "or1=1") + "ornot1=1;", 1, 382);
+    fails(x, 0, "loud1when1=1" + times(73, "or1=1") + "or" + times(9, "(") + "1;", 3, 387);
+    reads(x, 1, full(times(16, "hands 99 from 9999;")), 16);
+    reads(x, 2, full(times(16, "at9999deed\n1;")), 16);
+    reads(x, 3, full(times(16, "hearer0beside 1;")), 16);
+    fails(x, 3, full(times(16, "hearer0beside 1;") + "hearer"), 3, 256);
+    reads(x, 0, full(""), 0);
+    fails(x, 0, times(400, ";"), 1, 0);
+    fails(x, 0, times(400, "1"), 1, 0);
+    fails(x, 0, times(400, "l"), 1, 0);
+    fails(x, 0, "loud" + times(396, "1"), 1, 4);
+    reads(x, 0, "", 0);
   }
 
   private static void plainTexts(Encores x) {
