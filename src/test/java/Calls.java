@@ -1,18 +1,20 @@
 import java.util.ArrayList;
+import java.util.Collections;
 import java.util.List;
 import java.util.Random;
 
-/** The same calls on the program and on the model, with what they answered; the first difference is kept. */
+/**
+ * The same calls on the program and on the model, with what they answered; the first difference is kept. When no call is
+ * left of those that the document promises, nothing is called any more.
+ */
 final class Calls {
-  final Encores program = new Encores();
+  final Counted program = new Counted();
   final Model model = new Model();
   final List<String> told = new ArrayList<>();
   String difference;
-  int last;
 
   void same(String call, int got, int due) {
     told.add(call + " -> " + got);
-    last = got;
     if (got != due && difference == null) difference = call + " answered " + got + ", the model " + due;
   }
 
@@ -22,7 +24,8 @@ final class Calls {
 
   /** One call by its number, with five arguments of which it takes as many as it has. */
   void call(int which, int a, int b, int c, int d, int e) {
-    Encores x = program;
+    if (program.callsLeft() == 0) return;
+    Counted x = program;
     Model m = model;
     String three = "(" + a + ", " + b + ", " + c + ")", two = "(" + a + ", " + b + ")", one = "(" + a + ")";
     switch (which) {
@@ -71,17 +74,21 @@ final class Calls {
     }
   }
 
-  /** All that can be seen at once. */
-  void lookAll() {
-    for (int what = 0; what <= 17; what++) call(41, what, 0, 0, 0, 0);
-    for (int h = 0; h < model.look(0); h++) for (int what = 0; what <= 18; what++) call(13, h, what, 0, 0, 0);
-    for (int d = 0; d < model.look(1); d++) for (int what = 0; what <= 7; what++) call(14, d, what, 0, 0, 0);
-    for (int i = 0; i < model.look(9); i++) for (int what = 0; what <= 3; what++) call(16, i, what, 0, 0, 0);
-    for (int what = 0; what <= 3; what++) call(15, what, 0, 0, 0, 0);
+  /** All that can be seen at once, as much of it as there are calls left, in an order by chance. */
+  void lookAll(Random random) {
+    List<int[]> looks = new ArrayList<>();
+    for (int what = 0; what <= 17; what++) looks.add(new int[] {41, what, 0});
+    for (int h = 0; h < model.look(0); h++) for (int what = 0; what <= 18; what++) looks.add(new int[] {13, h, what});
+    for (int d = 0; d < model.look(1); d++) for (int what = 0; what <= 7; what++) looks.add(new int[] {14, d, what});
+    for (int i = 0; i < model.look(9); i++) for (int what = 0; what <= 3; what++) looks.add(new int[] {16, i, what});
+    for (int what = 0; what <= 3; what++) looks.add(new int[] {15, what, 0});
+    Collections.shuffle(looks, random);
+    for (int[] look : looks) call(look[0], look[1], look[2], 0, 0, 0);
   }
 
   /** A text is fed, cut to its length, and read as text k. */
   void read(String text, int k) {
+    if (program.callsLeft() < text.length() / 20 + 5) return;
     told.add("text " + k + ": " + text);
     for (int from = 0; from < text.length(); from += 20) {
       int[] v = new int[5];

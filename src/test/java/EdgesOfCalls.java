@@ -1,3 +1,4 @@
+import java.util.ArrayList;
 import java.util.List;
 import java.util.function.Consumer;
 
@@ -437,6 +438,25 @@ final class EdgesOfCalls {
       x.hearer(3, 3, 3);
       due("back to the later one", x.image(false) && x.look(0) == 1 && x.of(0, 0) == 2, true);
     });
+    e.edge(42, "THE IMAGE: all that is and was told", () -> {
+      List<Consumer<Counted>> tellings = List.of(x -> x.state(5), x -> x.hearer(1, 1, 1), x -> x.deed(1, 1, 1), x -> x.set(0, 0, 7),
+          x -> x.set(1, 0, 7), x -> x.set(2, 0, 7), x -> x.set(3, 0, 7), x -> x.set(4, 0, 7), x -> x.set(5, 0, 7),
+          x -> x.text(0, "loud 8;"), x -> x.text(0, "loud 4; loud 5;"), x -> x.text(1, "most 8;"), x -> x.text(1, "double 1; end 7;"),
+          x -> x.text(2, "at 8 deed 0;"), x -> x.text(2, ""), x -> x.text(3, "hearer 0 beside 1;"), x -> x.text(3, ""), x -> x.claque(NONE, 0),
+          x -> x.claque(2, 1), x -> x.means(4, 8), x -> x.perform(0), x -> x.pay(0, 9), x -> x.glove(1, true), x -> x.let(1, false),
+          x -> x.evenings(2), x -> x.undo());
+      for (int i = 0; i < tellings.size(); i++) {
+        Counted x = told();
+        List<Integer> due = seen(x);
+        Counted y = told();
+        y.image(true);
+        tellings.get(i).accept(y);
+        due("telling " + i + " is seen", seen(y).equals(due), false);
+        y.image(false);
+        due("what can be undone", y.look(16), 0);
+        due("telling " + i + " is gone", seen(y).equals(due), true);
+      }
+    });
     e.edge(42, "all that is and was told but the TAPE, fault() and what can be undone (nothing then)", () -> {
       Counted x = Edges.people(2, 1);
       x.pay(0, 1);
@@ -452,6 +472,35 @@ final class EdgesOfCalls {
       due("nothing can be undone", x.look(16), 0);
       due("nothing can be undone", x.undo(), false);
     });
+  }
+
+  /** Something of all that can be told, and done. */
+  private static Counted told() {
+    Counted x = Edges.people(3, 1);
+    x.text(0, "loud 7;");
+    x.text(1, "most 1; end 500;");
+    x.text(2, "at 5 deed 0;");
+    x.text(3, "hearer 2 beside 1;");
+    x.claque(7, 2);
+    x.means(4, 5);
+    x.perform(0);
+    x.pay(0, 3);
+    return x;
+  }
+
+  /** All that can be seen of it but what can be undone. */
+  private static List<Integer> seen(Counted x) {
+    List<Integer> seen = new ArrayList<>();
+    for (int what = 0; what < 16; what++) seen.add(x.look(what));
+    for (int h = 0; h < 3; h++) for (int what = 0; what <= 10; what++) seen.add(x.of(h, what));
+    for (int what = 0; what <= 6; what++) seen.add(x.deedOf(0, what));
+    for (int what = 0; what < 3; what++) seen.add(x.statute(what));
+    for (int i = 0; i < 4; i++) for (int what = 0; what < 4; what++) seen.add(x.book(i, what));
+    for (int what = 0; what < 3; what++) seen.add(x.fits(what));
+    for (int what = 0; what < 2; what++) seen.add(x.goes(what));
+    seen.add(x.goes(10));
+    seen.add(x.passed(4, 1, 0));
+    return seen;
   }
 
   private static void looks(Edges e) {

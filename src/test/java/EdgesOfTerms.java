@@ -459,6 +459,16 @@ final class EdgesOfTerms {
       x.set(0, 0, 1);
       x.perform(0);
       due("COUGHS 1: one", x.look(10), 1013904223);
+      // from 0 the DRAWS are 563 and 577: the first one is the HEARER's
+      Counted y = new Counted();
+      y.hearer(7, 0, 0);
+      y.deed(0, 1, 0);
+      y.text(0, "clap 570;");
+      y.text(1, "most 0;");
+      y.set(0, 0, 570);
+      y.perform(0);
+      due("not coughed", y.book(0, 1), 0);
+      due("clapped", y.book(0, 3), 7);
     });
     e.edge(6, "below COUGHS the hands are 0", () -> {
       // from 0 the DRAW is 563, from 457 it is 0, from 1188 999

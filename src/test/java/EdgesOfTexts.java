@@ -118,6 +118,8 @@ final class EdgesOfTexts {
       fails(0, "loude 1;", 1, 0);
       fails(0, "lo ud 1;", 1, 0);
       fails(0, "LOUD 1;", 1, 0);
+      for (char c = 'a'; c <= 'z'; c++) fails(0, "loud" + c + " 1;", 1, 0);
+      for (char c = 'A'; c <= 'Z'; c++) fails(0, "loud" + c + " 1;", 1, 0);
       fails(0, "loud 1a;", 1, 6);
       fails(0, "loud notes;", 1, 5);
       fails(0, "loud 1 when not1=1 andnot 1=1;", 1, 19);
@@ -269,7 +271,9 @@ final class EdgesOfTexts {
       fails(0, "loud 1 when " + eight + " and (" + eight + ");", 3, 12 + 19 + 5 + 8);
       reads(0, "loud 1 when (((((((1=1 or not 1=1 and not 1=1) or not 1=1))))));", 1);
       fails(0, "loud 1 when (((((((1=1 or not not 1=1)))))));", 3, 30);
-      // an open line before does not count
+      fails(0, "loud 1 when not 1=1 or (((((((((1=1)))))))));", 3, 31);
+      fails(0, "loud 1 when not not 1=1 and not(1=1)or (((((((((1=1)))))))));", 3, 47);
+      // those of a line before do not count
       reads(0, "loud 1 when " + eight + "; loud 2 when " + eight + ";", 2);
       reads(0, "loud 1 when not not not not not not not not 1=1; loud 2 when not 1=1;", 2);
     });
@@ -310,7 +314,8 @@ final class EdgesOfTexts {
   private static void grammar(Edges e) {
     e.edge(13, "B = A {or A}.  A = C {and C}.  C = E (< | = | >) E | not C | ( B ).", () -> {
       String[] so = {"1=1", "1<2", "2>1", "not 1=2", "(1=1)", "1=1 or 1=1 and 1=2", "1=2 and 1=1 or 1=1", "not 1=2 and 1=1",
-        "not (1=1 and 1=2)", "not not 1=1", "1=2 or 1=2 or 1=1", "1=1 and 1=1 and 1=1", "(1=2 or 1=1) and 1=1", "not 1=1 or 1=1"};
+        "not (1=1 and 1=2)", "not not 1=1", "1=2 or 1=2 or 1=1", "1=1 and 1=1 and 1=1", "(1=2 or 1=1) and 1=1", "not 1=1 or 1=1",
+        "1<2 and 1=1", "1=1 and 2>1", "1<2 and 2>1", "not 1>2 and 1<2"};
       String[] not = {"1=2", "1<1", "1>1", "2<1", "1>2", "not 1=1", "(1=2)", "(1=1 or 1=1) and 1=2", "1=1 and 1=1 and 1=2",
         "not (1=1 or 1=2)", "not not 1=2", "1=2 or 1=2 or 1=2", "not 1=1 and 1=1", "not 1=2 and 1=2"};
       for (String b : so) due(b, loud("loud 8 when " + b + "; loud 2;"), 8);
@@ -331,11 +336,24 @@ final class EdgesOfTexts {
       fails(0, "loud when 1=1;", 1, 5);
       fails(0, "loud 1 when 1=1) or (1=1;", 1, 15);
     });
+    e.edge(13, "NONE: no such one (fault() tells 0), or a FAULT", () -> {
+      // what was open when a FAULT came is not open in the next text
+      Counted x = three();
+      Edges.fails(x, 0, "loud 1 when ((((((((1=1", 1, 23);
+      Edges.fails(x, 0, "loud 1 when 1=1);", 1, 15);
+      Edges.fails(x, 0, "loud 1 when not not not not not not not not (", 3, 44);
+      Edges.reads(x, 0, "loud 1 when ((((((((1=1))))))));", 1);
+      Edges.fails(x, 0, "loud 5 when 1=1 or 1", 1, 20);
+      Edges.reads(x, 0, "loud 7+1;", 1);
+      due("as it stands", x.deedOf(0, 5), 8);
+    });
     e.edge(13, "E = T {(+ | -) T}.  T = U {* U | / NUMBER}.", () -> {
       due("from the left", loud("loud 9-3-1;"), 5);
       due("products first", loud("loud 2+3*4-1*5;"), 9);
       due("by from the left", loud("loud 60/3/2*5;"), 50);
       due("downwards each time", loud("loud 7/2*2;"), 6);
+      due("ahead of when", loud("loud 2+3 when 1=1;"), 5);
+      due("ahead of when", loud("loud 9-2*3 when 1=1;"), 3);
       due("on both sides", loud("loud 8 when 1+2*3=21/3; loud 2;"), 8);
       fails(0, "loud 1+;", 1, 7);
       fails(0, "loud +1;", 1, 5);
@@ -358,6 +376,7 @@ final class EdgesOfTexts {
         due("clap " + words[i], x.of(1, 11), ofClap[i]);
         due("loud " + words[i], x.deedOf(1, 5), ofDeed[i]);
         due("wears " + words[i], x.deedOf(1, 6), ofDeed[i]);
+        if (i < 5 || i == 8) due("the rest 0", loud("loud 50 + " + words[i] + ";"), 50);
       }
     });
   }
@@ -545,6 +564,12 @@ final class EdgesOfTexts {
         due(joined, loud(full(line + ";")), 4);
       }
       reads(0, Edges.times(16, "loud 1 when 1=1or 1=1;") + Edges.times(48, "\n"), 16);
+      // nothing of a text is left when the next one comes
+      Counted x = three();
+      for (int i = 1; i <= 9; i++) {
+        Edges.reads(x, 0, "loud" + i + Edges.times(197, "*1") + ";", 1);
+        due("told for the " + i + "th time", x.deedOf(0, 5), i);
+      }
       String deep = Edges.times(8, "1=2or1=1and(") + "1=2or1=1and3=1+1*2" + Edges.times(8, ")");
       due("all that may wait at once", loud("loud6when" + deep + ";loud5;"), 6);
       due("twice", loud("loud6when" + deep + "and" + deep + ";loud5;"), 6);

@@ -1,3 +1,6 @@
+import java.util.List;
+import java.util.function.ToIntFunction;
+
 /** The edges of what is asked in thought: section 4 of the document's Terms and promises 19 to 40. */
 final class EdgesOfThoughts {
   private static final int NONE = Edges.NONE;
@@ -19,6 +22,7 @@ final class EdgesOfThoughts {
 
   static void all(Edges e) {
     own(e);
+    stays(e);
     goes(e);
     settles(e);
     makes(e);
@@ -63,6 +67,33 @@ final class EdgesOfThoughts {
         due("STATE", x.look(10), 0);
       }
     });
+  }
+
+  private static void stays(Edges e) {
+    List<ToIntFunction<Counted>> thoughts = List.of(x -> x.goes(0), x -> x.goes(1), x -> x.goes(10), x -> x.settles(0, 0),
+        x -> x.settles(0, 1), x -> x.settles(0, 2), x -> x.makes(0, 1, 0), x -> x.makes(0, 2, 1), x -> x.makes(0, 5, 1),
+        x -> x.brakes(0, 0), x -> x.eager(0, 0), x -> x.gain(0), x -> x.calm(10), x -> x.tires(0), x -> x.price(0, 0));
+    e.edge(19, "IN THOUGHT (nothing of it stays; no DRAWS", () -> {
+      for (ToIntFunction<Counted> thought : thoughts) {
+        Counted x = Edges.people(2, 1);
+        x.text(2, "at 0 deed 0;");
+        x.text(1, "hands 3 from 0; most 3;");
+        x.set(0, 0, 1000);
+        thought.applyAsInt(x);
+        int[] dues = {2, 1, 0, 0, 0, 1000, NONE, 0, 3, 0, 0};
+        for (int what = 0; what < dues.length; what++) due("look " + what, x.look(what), dues[what]);
+        due("WEAR, DONE", x.deedOf(0, 3) + x.deedOf(0, 4), 0);
+        due("done in earnest, coughed", x.perform(0), 1);
+        due("two lines", x.look(9), 2);
+        due("three DRAWS", x.look(10), thirdState());
+      }
+    });
+  }
+
+  private static int thirdState() {
+    int state = 0;
+    for (int i = 0; i < 3; i++) state = state * 1664525 + 1013904223;
+    return state;
   }
 
   private static void goes(Edges e) {
@@ -156,6 +187,32 @@ final class EdgesOfThoughts {
       x.text(1, "hands 11 from 0; most 1;");
       due("it is so", x.makes(0, 1, 1), 0);
       due("it can't be", x.makes(0, 2, 1), NONE);
+    });
+    e.edge(21, "done now by hand, it is done just k times", () -> {
+      // at each time another one claps, and one hand is enough
+      Counted x = Edges.people(4, 1);
+      x.text(0, "clap 1000 when hearer = agains; clap 0; loud 0;");
+      x.text(1, "hands 1 from 0;");
+      int[] dues = {1, 2, 4, 8, 0};
+      for (int k = 1; k <= 5; k++) due("k " + k, x.makes(0, k, 1), dues[k - 1]);
+      // all hands are needed for it, and by all it ends the fifth time
+      Counted y = Edges.people(3, 1);
+      y.text(0, "clap 1000 when agains < 4; clap 0; loud 0;");
+      y.text(1, "hands 3 from 0;");
+      due("five times as it is", y.makes(0, 5, 1), 0);
+      due("not four times", y.makes(0, 4, 1), NONE);
+      due("once", y.makes(0, 1, 1), 1);
+      y.text(1, "hands 3 from 0; most 1;");
+      due("twice as it is", y.makes(0, 2, 1), 0);
+      // in a row by hand already
+      y.perform(0);
+      due("AGAINS is at most: once", y.makes(0, 1, 1), 0);
+      due("not twice", y.makes(0, 2, 1), NONE);
+      // what would be loud enough only later does not count
+      Counted z = Edges.people(0, 1);
+      z.text(0, "loud 5 when agains > 0; loud 4;");
+      due("once as it is", z.makes(0, 1, 1), 0);
+      due("not twice", z.makes(0, 2, 1), NONE);
     });
     e.edge(21, "MAKES what 0 how many, 1 the set. NONE if by none, one can't be, or another what.", () -> {
       Counted x = Edges.people(2, 2);
@@ -378,6 +435,8 @@ final class EdgesOfThoughts {
       due("of several the least", x.cuts(0, 11, 1), 2);
       due("of several the least", x.cuts(11, 9, 1), 1024);
       due("one", x.cuts(0, 11, 0), 1);
+      x.text(3, "hearer 0 beside 1; hearer 0 beside 2; hearer 1 beside 3; hearer 2 beside 3; hearer 3 beside 4;");
+      due("one behind two", x.cuts(0, 4, 1), 8);
       x.text(3, "");
       due("an empty GALLERY", x.cuts(0, 11, 0), 0);
     });
@@ -426,6 +485,7 @@ final class EdgesOfThoughts {
       due("11 steps", x.near(0, 11), 4095);
       due("12 steps", x.near(0, 12), 4095);
       due("from the last one", x.near(11, 10), 4094);
+      due("to the first one", x.near(11, 11), 4095);
       x.glove(1, true);
       x.let(1, false);
       due("over one away, with GLOVES", x.near(0, 2), 7);
@@ -479,6 +539,13 @@ final class EdgesOfThoughts {
       x.means(9, 0);
       due("all ten", x.passed(0, 0, 1), 10);
       due("all ten", x.passed(0, 0, 2), 10);
+      x.means(2, 0);
+      due("three", x.passed(0, 0, 1), 3);
+      due("three", x.passed(1, 0, 2), 3);
+      x.means(2, 1);
+      due("one ahead of two", x.passed(0, 0, 1), 3);
+      due("two", x.passed(0, 0, 2), 2);
+      due("two ahead of two: 9, 0", x.passed(9, 0, 1), 4);
     });
     e.edge(29, "(n not asked: 1, 2). NONE if one can't be, or another what.", () -> {
       Counted x = new Counted();
@@ -510,6 +577,9 @@ final class EdgesOfThoughts {
         for (int h = 0; h < 3; h++) due("of " + n + " to " + h, x.share(n, h), dues[n][h]);
       x.let(1, false);
       due("of those THERE", x.share(9, 0) * 10 + x.share(9, 2), 54);
+      x.let(0, false);
+      due("one THERE, with LIKES 0", x.share(9, 2), 9);
+      due("one away", x.share(9, 0), 0);
     });
     e.edge(30, "SHARES: what a HEARER bears (not THERE: 0); NONE if one can't be, or nobody is THERE.", () -> {
       Counted x = Edges.people(3, 0);
@@ -558,7 +628,9 @@ final class EdgesOfThoughts {
       }
     });
     e.edge(32, "the DEED (of several the least), how many (the fewest) who begins well takes", () -> {
-      int[][] rows = {{2, 2, 1, 0, 1}, {1, 1, 1, 0, 1}, {2, 1, 2, 0, 1}, {3, 4, 2, 1, 1}, {4, 4, 3, 2, 1}, {5, 2, 7, 0, 3}};
+      int[][] rows = {{2, 2, 1, 0, 1}, {1, 1, 1, 0, 1}, {2, 1, 2, 0, 1}, {3, 4, 2, 1, 1}, {4, 4, 3, 2, 1}, {5, 2, 7, 0, 3},
+        {4, 6, 2, NONE, NONE}, {5, 4, 1, NONE, NONE}, {5, 6, 3, NONE, NONE}, {11, 13, 7, NONE, NONE}, {12, 20, 8, NONE, NONE},
+        {4, 6, 1, 1, 1}, {6, 5, 1, NONE, NONE}, {6, 5, 3, NONE, NONE}, {6, 6, 5, 0, 3}};
       for (int[] r : rows) {
         Counted x = new Counted();
         for (int i = 0; i < 3; i++) x.deed(0, r[i], 0);
@@ -666,6 +738,9 @@ final class EdgesOfThoughts {
       due("that with the least", x.groups(1), 768);
       x.text(3, "hearer 11 beside 10; hearer 9 beside 8; hearer 7 beside 11;");
       due("one of three", x.groups(1), 3200);
+      x.text(3, "hearer 0 beside 3; hearer 1 beside 4; hearer 2 beside 5; hearer 6 beside 4;");
+      due("with others between them", x.groups(0), 8);
+      due("1, 4 and 6", x.groups(1), 82);
       x.text(3, Edges.row(12));
       due("all in one", x.groups(0), 1);
       due("all in one", x.groups(1), 4095);
@@ -790,6 +865,13 @@ final class EdgesOfThoughts {
       due("nobody", x.calm(0), NONE);
       due("nobody", x.calm(1), 0);
       due("nobody", x.calm(10), 0);
+      x.let(0, true);
+      x.let(1, true);
+      x.glove(0, false);
+      x.set(4, 1, 9);
+      x.text(0, "clap 1000 when worth = 9; clap 1000 when hearer = 0; clap 0;");
+      due("at DEED 0 one does not", x.calm(10), 1);
+      due("at DEED 1 both do", x.calm(11), 0);
       Counted y = Edges.people(0, 8);
       due("DEED 7", y.calm(17), 0);
       due("DEED 8", y.calm(18), NONE);

@@ -6,6 +6,9 @@ public final class ModelTest {
   private static final int[] OFTEN = {1, 3, 3, 8, 14, 6, 4, 4, 5, 1, 1, 6, 1, 6, 5, 3, 8, 5, 8, 5, 4, 5, 5, 6, 5, 4, 4, 5,
     5, 3, 4, 5, 5, 3, 5, 4, 3, 4, 4, 8, 2, 10};
 
+  // calls that are kept for a look at all at the end
+  private static final int LOOKS = 120;
+
   private final Random random;
   private final Calls calls = new Calls();
   private final Calls.Texts texts;
@@ -25,7 +28,6 @@ public final class ModelTest {
   }
 
   private void tell() {
-    if (calls.told.size() > 500) return;
     int which = 0;
     int of = 0;
     for (int often : OFTEN) of += often;
@@ -82,8 +84,8 @@ public final class ModelTest {
     for (int i = 0; i < hearers; i++) calls.call(1, below(10), below(10), below(10), 0, 0);
     for (int i = 0; i < deeds; i++) calls.call(2, below(10), 1 + below(below(2) == 0 ? 60 : 20), below(100), 0, 0);
     if (most > 0) for (int k = 0; k < 4; k++) calls.read(texts.of(k, hearers, deeds), k);
-    for (int i = 0; i < most && calls.difference == null; i++) tell();
-    if (calls.difference == null) calls.lookAll();
+    for (int i = 0; i < most && calls.program.callsLeft() > LOOKS && calls.difference == null; i++) tell();
+    if (calls.difference == null) calls.lookAll(random);
     if (calls.difference == null) return true;
     System.out.println(calls.difference);
     for (String told : calls.told) System.out.println("  " + told);
@@ -168,6 +170,7 @@ public final class ModelTest {
   }
 
   public static void main(String[] args) {
+    Watch.over("ModelTest");
     int runs = args.length > 0 ? Integer.parseInt(args[0]) : 240;
     int first = args.length > 1 ? Integer.parseInt(args[1]) : 0;
     for (int seed = first; seed < first + runs; seed++) {

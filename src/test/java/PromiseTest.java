@@ -20,54 +20,57 @@ public final class PromiseTest {
     due(what, got ? 1 : 0, due ? 1 : 0);
   }
 
-  /** A text is fed and read: how many lines. */
-  private static int text(Encores x, int k, String text) {
-    x.end(0);
-    for (int from = 0; from < text.length(); from += 20) {
-      int[] v = new int[5];
-      for (int i = 0; i < 20; i++) v[i / 4] = v[i / 4] << 8 | (from + i < text.length() ? text.charAt(from + i) : 32);
-      x.feed(v[0], v[1], v[2], v[3], v[4]);
-    }
-    x.end(text.length());
-    return x.text(k);
-  }
-
-  private static void fails(Encores x, int k, String text, int fault, int place) {
+  private static void fails(Counted x, int k, String text, int fault, int place) {
     int before = x.look(11 + k);
-    due("text of " + text, text(x, k, text), NONE);
+    due("text of " + text, x.text(k, text), NONE);
     due("fault of " + text, x.fault(0), fault);
     due("place in " + text, x.fault(1), place);
     due("lines of the text that stays", x.look(11 + k), before);
   }
 
-  private static void reads(Encores x, int k, String text, int lines) {
-    due("text of " + text, text(x, k, text), lines);
+  private static void reads(Counted x, int k, String text, int lines) {
+    due("text of " + text, x.text(k, text), lines);
     due("fault of " + text, x.fault(0), 0);
     due("place in " + text, x.fault(1), NONE);
     due("lines", x.look(11 + k), lines);
   }
 
+  /** On an object of its own: it, with the text told. */
+  private static Counted reads(int k, String text, int lines) {
+    Counted x = row();
+    reads(x, k, text, lines);
+    return x;
+  }
+
+  private static void fails(int k, String text, int fault, int place) {
+    fails(row(), k, text, fault, place);
+  }
+
+  private static void tellsLoud(String what, String text, int lines, int loud) {
+    due(what, reads(0, text, lines).deedOf(0, 5), loud);
+  }
+
   /** Three HEARERS in a row, 0 - 1 - 2, and two DEEDS. */
-  private static Encores row() {
-    Encores x = new Encores();
+  private static Counted row() {
+    Counted x = new Counted();
     x.hearer(2, 9, 1);
     x.hearer(3, 4, 2);
     x.hearer(1, 6, 3);
     x.deed(9, 10, 5);
     x.deed(3, 20, 1);
-    text(x, 3, "hearer 0 beside 1; hearer 1 beside 2;");
+    x.text(3, "hearer 0 beside 1; hearer 1 beside 2;");
     return x;
   }
 
-  private static Encores people(int hearers, int deeds) {
-    Encores x = new Encores();
+  private static Counted people(int hearers, int deeds) {
+    Counted x = new Counted();
     for (int i = 0; i < hearers; i++) x.hearer(1, 9, 0);
     for (int i = 0; i < deeds; i++) x.deed(3, 10, 0);
     return x;
   }
 
   private static void newObject() {
-    Encores x = new Encores();
+    Counted x = new Counted();
     due("the constant", Encores.NONE, -1);
     for (int what = 0; what <= 16; what++) due("look " + what, x.look(what), what == 6 ? NONE : 0);
     due("statute 0", x.statute(0), 5);
@@ -81,7 +84,7 @@ public final class PromiseTest {
   }
 
   private static void state() {
-    Encores x = row();
+    Counted x = row();
     due("state", x.state(7), 0);
     due("state", x.state(LEAST), 7);
     due("state", x.state(-1), LEAST);
@@ -90,23 +93,23 @@ public final class PromiseTest {
     x.state(3);
     due("what can be undone", x.look(16), 0);
     // 3 times 1664525 + 1013904223 = 1018897798; one HEARER draws: 1018897798 >>> 8 = 3980069, modulo 1000 = 69
-    Encores y = new Encores();
+    Counted y = new Counted();
     y.hearer(7, 0, 0);
     y.deed(0, 1, 0);
-    text(y, 0, "clap 70;");
-    text(y, 1, "most 0;");
+    y.text(0, "clap 70;");
+    y.text(1, "most 0;");
     y.state(3);
     y.perform(0);
     due("STATE behind one draw", y.look(10), 1018897798);
     due("hands", y.book(0, 3), 7);
-    text(y, 0, "clap 69;");
+    y.text(0, "clap 69;");
     y.state(3);
     y.perform(0);
     due("hands, the draw not below clap", y.book(1, 3), 0);
   }
 
   private static void hearers() {
-    Encores x = new Encores();
+    Counted x = new Counted();
     int[][] bad = {{-1, 0, 0}, {10, 0, 0}, {0, -1, 0}, {0, 10, 0}, {0, 0, -1}, {0, 0, 10}, {LEAST, 0, 0}, {0, GREATEST, 0}};
     for (int[] b : bad) due("a wrong hearer", x.hearer(b[0], b[1], b[2]), NONE);
     due("hearers", x.look(0), 0);
@@ -127,7 +130,7 @@ public final class PromiseTest {
   }
 
   private static void deeds() {
-    Encores x = new Encores();
+    Counted x = new Counted();
     int[][] bad = {{-1, 1, 0}, {10, 1, 0}, {0, 0, 0}, {0, 61, 0}, {0, 1, -1}, {0, 1, 100}, {0, LEAST, 0}};
     for (int[] b : bad) due("a wrong deed", x.deed(b[0], b[1], b[2]), NONE);
     x.evenings(1);
@@ -146,7 +149,7 @@ public final class PromiseTest {
   }
 
   private static void sets() {
-    Encores x = row();
+    Counted x = row();
     x.pay(0, 1);
     int[][] bad = {{0, 0, -1}, {0, 0, 1001}, {1, 0, 10}, {1, 0, -1}, {1, 3, 5}, {1, -1, 5}, {2, 0, 10}, {2, 3, 1},
       {3, 0, 10}, {3, -1, 1}, {4, 0, 10}, {4, 2, 1}, {4, -1, 1}, {5, 0, 100}, {5, 0, -1}, {5, 2, 1}, {6, 0, 0}, {-1, 0, 0},
@@ -170,13 +173,13 @@ public final class PromiseTest {
   }
 
   private static void performs() {
-    Encores x = row();
+    Counted x = row();
     due("no such deed", x.perform(2), NONE);
     due("no such deed", x.perform(-1), NONE);
     due("nothing to undo", x.look(16), 0);
     // nobody claps below 0; loud alone makes the hands: worth 9 by 3 is 3
-    text(x, 0, "clap 0;");
-    text(x, 1, "hands 3 from 0; most 2; end 9999;");
+    x.text(0, "clap 0;");
+    x.text(1, "hands 3 from 0; most 2; end 9999;");
     due("done over twice", x.perform(0), 3);
     due("minute", x.look(2), 30);
     due("coin", x.look(4), -15);
@@ -191,31 +194,31 @@ public final class PromiseTest {
     due("the first again", x.perform(0), 3);
     due("one undo each", x.look(16), 4);
     // once whatever end is, but not over behind it
-    text(x, 1, "hands 3 from 0; most 20; end 1;");
+    x.text(1, "hands 3 from 0; most 20; end 1;");
     due("behind the end", x.perform(0), 1);
-    text(x, 1, "hands 3 from 0; most 20; end 9999;");
+    x.text(1, "hands 3 from 0; most 20; end 9999;");
     x.perform(1);
     due("21 times", x.perform(0), 21);
-    text(x, 1, "hands 3 from 0; most 0; end 9999;");
+    x.text(1, "hands 3 from 0; most 0; end 9999;");
     x.perform(1);
     due("most 0", x.perform(0), 1);
     // a DEED of an hour may begin as long as 21 of them end before 9999
-    Encores y = new Encores();
+    Counted y = new Counted();
     y.deed(0, 60, 0);
-    text(y, 2, "at 8738 deed 0;");
+    y.text(2, "at 8738 deed 0;");
     y.evenings(1);
     due("minute, end 300", y.look(2), 8738);
     due("8738 + 21 * 60 = 9998", y.perform(0), 1);
     y.evenings(1);
-    text(y, 2, "at 8739 deed 0;");
+    y.text(2, "at 8739 deed 0;");
     y.evenings(1);
     due("8739 + 21 * 60 = 9999", y.perform(0), NONE);
     due("and nothing is done", y.look(2), 8739);
     // wears: 99 at most, and asked with the WEAR and the MINUTE of before
-    Encores z = new Encores();
+    Counted z = new Counted();
     z.deed(0, 60, 0);
     z.deed(0, 60, 0);
-    text(z, 0, "wears 10 + wear + late * 20 + agains;");
+    z.text(0, "wears 10 + wear + late * 20 + agains;");
     z.perform(0);
     due("wear", z.deedOf(0, 3), 10);
     z.perform(0);
@@ -227,10 +230,10 @@ public final class PromiseTest {
   private static void rounds() {
     promise = 6;
     // 2 claps by himself, 1 beside him behind that, 0 beside 1 a round later; 3 sits alone
-    Encores x = people(4, 1);
-    text(x, 3, "hearer 0 beside 1; hearer 2 beside 1;");
-    text(x, 0, "clap 1000 when hearer = 2 or beside > 0; clap 0;");
-    text(x, 1, "most 0;");
+    Counted x = people(4, 1);
+    x.text(3, "hearer 0 beside 1; hearer 2 beside 1;");
+    x.text(0, "clap 1000 when hearer = 2 or beside > 0; clap 0;");
+    x.text(1, "most 0;");
     x.perform(0);
     due("hands of 0, 1, 2 and loud", x.book(0, 3), 4);
     due("rounds in thought", x.settles(0, 1), 3);
@@ -243,17 +246,17 @@ public final class PromiseTest {
     x.perform(0);
     due("who is away does not clap", x.book(5, 3), 2);
     // one who begins is heard in the same round by those behind him
-    text(x, 0, "clap 1000 when hearer = 0 or beside > 0; clap 0;");
+    x.text(0, "clap 1000 when hearer = 0 or beside > 0; clap 0;");
     x.let(1, true);
     due("0, then 1, then 2 in one round", x.settles(0, 1), 1);
     due("who claps", x.settles(0, 0), 7);
     // a chain of twelve, from its end on: one more in each round
-    Encores z = people(12, 1);
+    Counted z = people(12, 1);
     String chain = "";
     for (int h = 0; h < 11; h++) chain += "hearer " + h + " beside " + (h + 1) + ";";
-    text(z, 3, chain);
-    text(z, 0, "clap 1000 when hearer = 11 or beside > 0; clap 0;");
-    text(z, 1, "most 0;");
+    z.text(3, chain);
+    z.text(0, "clap 1000 when hearer = 11 or beside > 0; clap 0;");
+    z.text(1, "most 0;");
     due("twelve rounds", z.settles(0, 1), 12);
     due("all", z.settles(0, 0), 4095);
     due("near", z.near(0, 12), 4095);
@@ -262,7 +265,7 @@ public final class PromiseTest {
     z.perform(0);
     due("twelve hands and loud", z.book(0, 3), 13);
     // all HEARERS that are THERE draw, with gloves too, each once, before COUGHS
-    Encores y = people(3, 1);
+    Counted y = people(3, 1);
     y.glove(0, true);
     y.let(1, false);
     y.set(0, 0, 1);
@@ -277,7 +280,7 @@ public final class PromiseTest {
   }
 
   private static void pays() {
-    Encores x = row();
+    Counted x = row();
     int[][] bad = {{0, 0}, {0, 100}, {0, -1}, {3, 1}, {-1, 1}, {0, LEAST}, {GREATEST, 1}};
     for (int[] b : bad) due("a wrong pay", x.pay(b[0], b[1]), false);
     due("nothing", x.look(9), 0);
@@ -295,7 +298,7 @@ public final class PromiseTest {
   }
 
   private static void gloves() {
-    Encores x = row();
+    Counted x = row();
     due("no such", x.glove(3, true), false);
     due("no such", x.glove(-1, true), false);
     due("has none", x.glove(0, false), false);
@@ -311,7 +314,7 @@ public final class PromiseTest {
   }
 
   private static void lets() {
-    Encores x = row();
+    Counted x = row();
     due("no such", x.let(3, false), false);
     due("no such", x.let(-1, false), false);
     due("is there", x.let(2, true), false);
@@ -328,14 +331,14 @@ public final class PromiseTest {
   }
 
   private static void evenings() {
-    Encores x = row();
+    Counted x = row();
     int[] bad = {0, 21, -1, LEAST, GREATEST};
     for (int n : bad) due("a wrong number", x.evenings(n), NONE);
     due("nothing", x.look(3), 0);
-    text(x, 0, "clap 0;");
-    text(x, 1, "hands 3 from 0; most 2; end 100;");
+    x.text(0, "clap 0;");
+    x.text(1, "hands 3 from 0; most 2; end 100;");
     // 0: 30, 40, 50; 1 from 50 on: 70, once for its loud of 1; 0 again from 70 on: 80, 90, 100: no more
-    text(x, 2, "at 20 deed 0; at 10 deed 1; at 60 deed 0; at 100 deed 1;");
+    x.text(2, "at 20 deed 0; at 10 deed 1; at 60 deed 0; at 100 deed 1;");
     due("an evening", x.evenings(1), 7);
     due("minute stays", x.look(2), 100);
     due("now stays", x.look(6), 0);
@@ -346,10 +349,10 @@ public final class PromiseTest {
     due("evening", x.look(3), 5);
     due("six can be undone", x.evenings(2) == 14 && x.look(16) == 6, true);
     // the same DEED in two lines goes on in a row
-    text(x, 2, "at 0 deed 0; at 50 deed 0;");
+    x.text(2, "at 0 deed 0; at 50 deed 0;");
     due("thrice, then once", x.evenings(1), 4);
     due("agains", x.look(7), 3);
-    Encores y = new Encores();
+    Counted y = new Counted();
     for (int i = 0; i < 499; i++) y.evenings(20);
     due("evening", y.look(3), 9980);
     due("too many", y.evenings(20), NONE);
@@ -361,7 +364,7 @@ public final class PromiseTest {
 
   private static void tape() {
     promise = 11;
-    Encores x = row();
+    Counted x = row();
     x.pay(0, 1);
     for (int i = 1; i <= 20; i++) due("feed", x.feed(538976288, 538976288, 538976288, 538976288, 538976288), 20 * i);
     due("too many", x.feed(0, 0, 0, 0, 0), NONE);
@@ -391,13 +394,13 @@ public final class PromiseTest {
   }
 
   private static void texts() {
-    Encores x = row();
-    reads(x, 0, "", 0);
-    reads(x, 0, " \n ", 0);
-    reads(x, 0, "clap likes*100+beside*200;loud worth/3;wears 50;", 3);
-    reads(x, 0, "loud hearer+hands-likes*manners/9+paid-worth+wear*agains-beside*late when 1<2;", 1);
-    reads(x, 0, "clap1when1=1and2>1or not(1<2);", 1);
-    reads(x, 0, "clap\n1\nwhen\n(((((((1=1)))))));", 1);
+    Counted x = row();
+    reads(0, "", 0);
+    reads(0, " \n ", 0);
+    reads(0, "clap likes*100+beside*200;loud worth/3;wears 50;", 3);
+    reads(0, "loud hearer+hands-likes*manners/9+paid-worth+wear*agains-beside*late when 1<2;", 1);
+    reads(0, "clap1when1=1and2>1or not(1<2);", 1);
+    reads(0, "clap\n1\nwhen\n(((((((1=1)))))));", 1);
     for (int k = -1; k <= 4; k += 5) {
       x.feed(1, 1, 1, 1, 1);
       due("no such text", x.text(k), NONE);
@@ -406,59 +409,59 @@ public final class PromiseTest {
       due("the tape is empty", x.end(1), false);
     }
     promise = 14;
-    fails(x, 0, "loud", 1, 4);
-    fails(x, 0, "loud  ", 1, 6);
-    fails(x, 0, "loud 1", 1, 6);
-    fails(x, 0, ";", 1, 0);
-    fails(x, 0, "Loud 1;", 1, 0);
-    fails(x, 0, "loudy 1;", 1, 0);
-    fails(x, 0, "loud 1 2;", 1, 7);
-    fails(x, 0, "loud 12345;", 1, 5);
-    fails(x, 0, "loud -1;", 1, 5);
-    fails(x, 0, "loud (1);", 1, 5);
-    fails(x, 0, "loud 1+;", 1, 7);
-    fails(x, 0, "loud 1*+2;", 1, 7);
-    fails(x, 0, "loud 1/hands;", 1, 7);
-    fails(x, 0, "loud 1/0;", 2, 7);
-    fails(x, 0, "loud 1/0000;", 2, 7);
-    fails(x, 0, "loud 1/00000;", 1, 7);
-    fails(x, 0, "loud 1/", 1, 7);
-    fails(x, 0, "loud 1 < 2;", 1, 7);
-    fails(x, 0, "loud 1 and 2;", 1, 7);
-    fails(x, 0, "loud 1);", 1, 6);
-    fails(x, 0, "loud 1 when;", 1, 11);
-    fails(x, 0, "loud 1 when 1;", 1, 13);
-    fails(x, 0, "loud 1 when 1 and 2=2;", 1, 14);
-    fails(x, 0, "loud 1 when 1=1 when 2=2;", 1, 16);
-    fails(x, 0, "loud 1 when 1=1=1;", 1, 15);
-    fails(x, 0, "loud 1 when (1=1;", 1, 16);
-    fails(x, 0, "loud 1 when (1)=1;", 1, 14);
-    fails(x, 0, "loud 1 when 1=(1);", 1, 14);
-    fails(x, 0, "loud 1 when (1=1)=1;", 1, 17);
-    fails(x, 0, "loud 1 when (1=1)+1;", 1, 17);
-    fails(x, 0, "loud 1 when 1=1);", 1, 15);
-    fails(x, 0, "loud 1 when 1=1) and (1=1;", 1, 15);
-    fails(x, 0, "loud 1 when not;", 1, 15);
-    fails(x, 0, "loud 1 when 1=1 not 1=1;", 1, 16);
-    fails(x, 0, "loud 1 when 1=1 and;", 1, 19);
-    fails(x, 0, "loud 1 when 1 = 2 / 0;", 2, 20);
-    fails(x, 0, "loud from;", 1, 5);
-    fails(x, 0, "loud 1\t;", 1, 6);
-    fails(x, 0, "loud 1;\u00ff", 1, 7);
-    fails(x, 0, "loud 1.;", 1, 6);
-    fails(x, 0, "loud 1; most 2;", 1, 8);
-    fails(x, 0, "loud 1/0; loud", 2, 7);
-    fails(x, 0, "loud 1 when not not not not not not not not not 1=1;", 3, 44);
-    reads(x, 0, "loud 1 when not not not not not not not not 1=1;", 1);
-    fails(x, 0, "loud 1 when (((((((((1=1)))))))));", 3, 20);
-    reads(x, 0, "loud 1 when ((((((((1=1))))))));", 1);
-    fails(x, 0, "loud 1 when not(not(not(not((1=1)))));", 3, 28);
+    fails(0, "loud", 1, 4);
+    fails(0, "loud  ", 1, 6);
+    fails(0, "loud 1", 1, 6);
+    fails(0, ";", 1, 0);
+    fails(0, "Loud 1;", 1, 0);
+    fails(0, "loudy 1;", 1, 0);
+    fails(0, "loud 1 2;", 1, 7);
+    fails(0, "loud 12345;", 1, 5);
+    fails(0, "loud -1;", 1, 5);
+    fails(0, "loud (1);", 1, 5);
+    fails(0, "loud 1+;", 1, 7);
+    fails(0, "loud 1*+2;", 1, 7);
+    fails(0, "loud 1/hands;", 1, 7);
+    fails(0, "loud 1/0;", 2, 7);
+    fails(0, "loud 1/0000;", 2, 7);
+    fails(0, "loud 1/00000;", 1, 7);
+    fails(0, "loud 1/", 1, 7);
+    fails(0, "loud 1 < 2;", 1, 7);
+    fails(0, "loud 1 and 2;", 1, 7);
+    fails(0, "loud 1);", 1, 6);
+    fails(0, "loud 1 when;", 1, 11);
+    fails(0, "loud 1 when 1;", 1, 13);
+    fails(0, "loud 1 when 1 and 2=2;", 1, 14);
+    fails(0, "loud 1 when 1=1 when 2=2;", 1, 16);
+    fails(0, "loud 1 when 1=1=1;", 1, 15);
+    fails(0, "loud 1 when (1=1;", 1, 16);
+    fails(0, "loud 1 when (1)=1;", 1, 14);
+    fails(0, "loud 1 when 1=(1);", 1, 14);
+    fails(0, "loud 1 when (1=1)=1;", 1, 17);
+    fails(0, "loud 1 when (1=1)+1;", 1, 17);
+    fails(0, "loud 1 when 1=1);", 1, 15);
+    fails(0, "loud 1 when 1=1) and (1=1;", 1, 15);
+    fails(0, "loud 1 when not;", 1, 15);
+    fails(0, "loud 1 when 1=1 not 1=1;", 1, 16);
+    fails(0, "loud 1 when 1=1 and;", 1, 19);
+    fails(0, "loud 1 when 1 = 2 / 0;", 2, 20);
+    fails(0, "loud from;", 1, 5);
+    fails(0, "loud 1\t;", 1, 6);
+    fails(0, "loud 1;\u00ff", 1, 7);
+    fails(0, "loud 1.;", 1, 6);
+    fails(0, "loud 1; most 2;", 1, 8);
+    fails(0, "loud 1/0; loud", 2, 7);
+    fails(0, "loud 1 when not not not not not not not not not 1=1;", 3, 44);
+    reads(0, "loud 1 when not not not not not not not not 1=1;", 1);
+    fails(0, "loud 1 when (((((((((1=1)))))))));", 3, 20);
+    reads(0, "loud 1 when ((((((((1=1))))))));", 1);
+    fails(0, "loud 1 when not(not(not(not((1=1)))));", 3, 28);
     // what has ended is not open any more
-    reads(x, 0, "loud 1 when not(not(not(not(1=1)))) and not(not(not(not(1=1)))) or ((((((((1=1))))))));", 1);
-    reads(x, 0, "loud 1 when (not 1=1 or not 1=1 and not 1=1 or not 1=1 or not 1=1 or not 1=1 or not 1=1 or not 1=1);", 1);
-    statuteTexts(x);
-    plainTexts(x);
-    longTexts(x);
+    reads(0, "loud 1 when not(not(not(not(1=1)))) and not(not(not(not(1=1)))) or ((((((((1=1))))))));", 1);
+    reads(0, "loud 1 when (not 1=1 or not 1=1 and not 1=1 or not 1=1 or not 1=1 or not 1=1 or not 1=1 or not 1=1);", 1);
+    statuteTexts();
+    plainTexts();
+    longTexts();
   }
 
   private static String times(int n, String s) {
@@ -467,35 +470,32 @@ public final class PromiseTest {
     return many.toString();
   }
 
-  private static void statuteTexts(Encores x) {
-    reads(x, 1, "hands 1 from 0; hands 99 from 9999; most 0; most 20; double 2; end 1; end 9999;", 7);
-    fails(x, 1, "hands", 1, 5);
-    fails(x, 1, "hands 0 from 0;", 2, 6);
-    fails(x, 1, "hands 100 from 0;", 2, 6);
-    fails(x, 1, "hands 1;", 1, 7);
-    fails(x, 1, "hands 1 from;", 1, 12);
-    fails(x, 1, "hands 1 from 10000;", 1, 13);
-    fails(x, 1, "hands 1 from 1", 1, 14);
-    fails(x, 1, "most 21;", 2, 5);
-    fails(x, 1, "double 3;", 2, 7);
-    fails(x, 1, "end 0;", 2, 4);
-    fails(x, 1, "end 1 1;", 1, 6);
-    fails(x, 1, "from 1;", 1, 0);
-    fails(x, 1, "most 1;;", 1, 7);
-    reads(x, 1, times(16, "most 1;"), 16);
-    fails(x, 1, times(17, "most 1;"), 3, 112);
-    fails(x, 1, times(16, "most 1;") + "from", 1, 112);
-    fails(x, 1, times(16, "most 1;") + "end", 3, 112);
-    fails(x, 0, times(17, "loud 1;"), 3, 112);
-    reads(x, 0, times(16, "loud 1;"), 16);
-    fails(x, 0, times(15, "loud 1;") + "loud" + times(290, " ") + "1", 1, 400);
-    reads(x, 0, "loud1" + times(197, "*1") + ";", 1);
-    due("the longest product", x.deedOf(0, 5), 1);
-    reads(x, 0, "loud 7 when 1=1" + times(48, " and 1=1") + ";", 1);
-    due("the longest row of conditions", x.deedOf(0, 5), 7);
-    reads(x, 0, "loud 8 when 1=2 or not(not(not(not(1=2 or 3=3 and 7=1+2*3)and 1=1)or 1=2)and 1=1);", 1);
-    due("the deepest condition", x.deedOf(0, 5), 8);
-    due("a text of 400 bytes", text(x, 0, times(15, "loud 1;") + "loud" + times(289, " ") + "1;"), 16);
+  private static void statuteTexts() {
+    reads(1, "hands 1 from 0; hands 99 from 9999; most 0; most 20; double 2; end 1; end 9999;", 7);
+    fails(1, "hands", 1, 5);
+    fails(1, "hands 0 from 0;", 2, 6);
+    fails(1, "hands 100 from 0;", 2, 6);
+    fails(1, "hands 1;", 1, 7);
+    fails(1, "hands 1 from;", 1, 12);
+    fails(1, "hands 1 from 10000;", 1, 13);
+    fails(1, "hands 1 from 1", 1, 14);
+    fails(1, "most 21;", 2, 5);
+    fails(1, "double 3;", 2, 7);
+    fails(1, "end 0;", 2, 4);
+    fails(1, "end 1 1;", 1, 6);
+    fails(1, "from 1;", 1, 0);
+    fails(1, "most 1;;", 1, 7);
+    reads(1, times(16, "most 1;"), 16);
+    fails(1, times(17, "most 1;"), 3, 112);
+    fails(1, times(16, "most 1;") + "from", 1, 112);
+    fails(1, times(16, "most 1;") + "end", 3, 112);
+    fails(0, times(17, "loud 1;"), 3, 112);
+    reads(0, times(16, "loud 1;"), 16);
+    fails(0, times(15, "loud 1;") + "loud" + times(290, " ") + "1", 1, 400);
+    tellsLoud("the longest product", "loud1" + times(197, "*1") + ";", 1, 1);
+    tellsLoud("the longest row of conditions", "loud 7 when 1=1" + times(48, " and 1=1") + ";", 1, 7);
+    tellsLoud("the deepest condition", "loud 8 when 1=2 or not(not(not(not(1=2 or 3=3 and 7=1+2*3)and 1=1)or 1=2)and 1=1);", 1, 8);
+    due("a text of 400 bytes", row().text(0, times(15, "loud 1;") + "loud" + times(289, " ") + "1;"), 16);
   }
 
   /** A text filled up with blanks to all the bytes that there can be. */
@@ -504,80 +504,67 @@ public final class PromiseTest {
   }
 
   /** Lines as long as the TAPE lets them be: nothing but its 400 bytes bounds them. */
-  private static void longTexts(Encores x) {
-    reads(x, 0, full("loud1when1=1" + times(66, "or1=1") + ";"), 1);
-    due("a row of or", x.deedOf(0, 5), 1);
-    reads(x, 0, full("loud1when1=1" + times(77, "or1=1") + ";"), 1);
-    due("the longest row of or", x.deedOf(0, 5), 1);
-    reads(x, 0, full("loud4when1=2" + times(76, "or1=2") + "or1=1;"), 1);
-    due("the last of the longest row of or", x.deedOf(0, 5), 4);
-    reads(x, 0, full("loud1when1=1" + times(64, "and1=1") + ";"), 1);
-    due("the longest row of and", x.deedOf(0, 5), 1);
-    reads(x, 0, full("loud1when1=1" + times(63, "and1=1") + "and1=2;"), 1);
-    due("the last of the longest row of and", x.deedOf(0, 5), 3);
-    reads(x, 0, full("loud9when1=2" + times(41, "or not1=1") + "or not1=2;"), 1);
-    due("the longest row of not", x.deedOf(0, 5), 9);
-    reads(x, 0, full("loud9when1=2" + times(54, "or(1=2)") + "or(1=1);"), 1);
-    due("the longest row of (", x.deedOf(0, 5), 9);
-    reads(x, 0, full("loud9when1=1" + times(35, "or1=2and1=1") + ";"), 1);
-    due("or and and by turns", x.deedOf(0, 5), 9);
-    reads(x, 0, full("loud1" + times(196, "+1") + ";"), 1);
-    due("197, held to 99", x.deedOf(0, 5), 99);
-    reads(x, 0, full("loud9when1" + times(93, "+1") + "=1" + times(93, "+1") + ";"), 1);
-    due("94 are 94", x.deedOf(0, 5), 9);
-    reads(x, 0, "loud9999" + times(195, "/1") + ";", 1);
-    due("9999 by 1, held to 99", x.deedOf(0, 5), 99);
-    reads(x, 0, times(16, "loud1when1=2" + "or1=2" + "or1=2;"), 16);
-    due("none of 16 lines", x.deedOf(0, 5), 3);
+  private static void longTexts() {
+    tellsLoud("a row of or", full("loud1when1=1" + times(66, "or1=1") + ";"), 1, 1);
+    tellsLoud("the longest row of or", full("loud1when1=1" + times(77, "or1=1") + ";"), 1, 1);
+    tellsLoud("the last of the longest row of or", full("loud4when1=2" + times(76, "or1=2") + "or1=1;"), 1, 4);
+    tellsLoud("the longest row of and", full("loud1when1=1" + times(64, "and1=1") + ";"), 1, 1);
+    tellsLoud("the last of the longest row of and", full("loud1when1=1" + times(63, "and1=1") + "and1=2;"), 1, 3);
+    tellsLoud("the longest row of not", full("loud9when1=2" + times(41, "or not1=1") + "or not1=2;"), 1, 9);
+    tellsLoud("the longest row of (", full("loud9when1=2" + times(54, "or(1=2)") + "or(1=1);"), 1, 9);
+    tellsLoud("or and and by turns", full("loud9when1=1" + times(35, "or1=2and1=1") + ";"), 1, 9);
+    tellsLoud("197, held to 99", full("loud1" + times(196, "+1") + ";"), 1, 99);
+    tellsLoud("94 are 94", full("loud9when1" + times(93, "+1") + "=1" + times(93, "+1") + ";"), 1, 9);
+    tellsLoud("9999 by 1, held to 99", "loud9999" + times(195, "/1") + ";", 1, 99);
+    tellsLoud("none of 16 lines", times(16, "loud1when1=2" + "or1=2" + "or1=2;"), 16, 3);
     // in each of eight brackets an or and an and wait for it
     String deep = times(8, "1=2or1=1and(") + "1=2or1=1and3=1+1*2" + times(8, ")");
-    reads(x, 0, full("loud6when" + deep + ";loud5;"), 2);
-    due("all that may wait at once", x.deedOf(0, 5), 6);
-    reads(x, 0, full("loud6when" + deep + "and" + deep + ";loud5;"), 2);
-    due("twice", x.deedOf(0, 5), 6);
+    tellsLoud("all that may wait at once", full("loud6when" + deep + ";loud5;"), 2, 6);
+    tellsLoud("twice", full("loud6when" + deep + "and" + deep + ";loud5;"), 2, 6);
     // the first FAULT of a long line is where it stands
-    fails(x, 0, "loud1when1=1" + times(66, "or1=1") + "or;", 1, 344);
-    fails(x, 0, "loud1when1=1" + times(77, "or1=1"), 1, 397);
-    fails(x, 0, full("loud1when1=1" + times(77, "or1=1")), 1, 400);
-    fails(x, 0, "loud1when1=1" + times(75, "or1=1") + "or1/0=1;", 2, 391);
-    fails(x, 0, "loud1when1=1" + times(74, "or1=1") + "or" + times(3, " not") + ";", 1, 396);
-    fails(x, 0, "loud1when1=1" + times(74, "or1=1") + "ornot1=1;", 1, 382);
-    fails(x, 0, "loud1when1=1" + times(73, "or1=1") + "or" + times(9, "(") + "1;", 3, 387);
-    reads(x, 1, full(times(16, "hands 99 from 9999;")), 16);
-    reads(x, 2, full(times(16, "at9999deed\n1;")), 16);
-    reads(x, 3, full(times(16, "hearer0beside 1;")), 16);
-    fails(x, 3, full(times(16, "hearer0beside 1;") + "hearer"), 3, 256);
-    reads(x, 0, full(""), 0);
-    fails(x, 0, times(400, ";"), 1, 0);
-    fails(x, 0, times(400, "1"), 1, 0);
-    fails(x, 0, times(400, "l"), 1, 0);
-    fails(x, 0, "loud" + times(396, "1"), 1, 4);
-    reads(x, 0, "", 0);
+    fails(0, "loud1when1=1" + times(66, "or1=1") + "or;", 1, 344);
+    fails(0, "loud1when1=1" + times(77, "or1=1"), 1, 397);
+    fails(0, full("loud1when1=1" + times(77, "or1=1")), 1, 400);
+    fails(0, "loud1when1=1" + times(75, "or1=1") + "or1/0=1;", 2, 391);
+    fails(0, "loud1when1=1" + times(74, "or1=1") + "or" + times(3, " not") + ";", 1, 396);
+    fails(0, "loud1when1=1" + times(74, "or1=1") + "ornot1=1;", 1, 382);
+    fails(0, "loud1when1=1" + times(73, "or1=1") + "or" + times(9, "(") + "1;", 3, 387);
+    reads(1, full(times(16, "hands 99 from 9999;")), 16);
+    reads(2, full(times(16, "at9999deed\n1;")), 16);
+    reads(3, full(times(16, "hearer0beside 1;")), 16);
+    fails(3, full(times(16, "hearer0beside 1;") + "hearer"), 3, 256);
+    reads(0, full(""), 0);
+    fails(0, times(400, ";"), 1, 0);
+    fails(0, times(400, "1"), 1, 0);
+    fails(0, times(400, "l"), 1, 0);
+    fails(0, "loud" + times(396, "1"), 1, 4);
+    reads(0, "", 0);
   }
 
-  private static void plainTexts(Encores x) {
-    reads(x, 2, "at 0 deed 0; at 9999 deed 1;", 2);
-    fails(x, 2, "at", 1, 2);
-    fails(x, 2, "at 1 deed 2;", 2, 10);
-    fails(x, 2, "at 10000 deed 0;", 1, 3);
-    fails(x, 2, "at 1;", 1, 4);
-    fails(x, 2, "at 1 0;", 1, 5);
-    fails(x, 2, "deed 0;", 1, 0);
-    fails(x, 2, "at deed 0;", 1, 3);
-    reads(x, 2, times(16, "at 1 deed 0;"), 16);
-    fails(x, 2, times(17, "at 1 deed 0;"), 3, 192);
-    reads(x, 3, "hearer 0 beside 1; hearer 1 beside 0; hearer 0 beside 1;", 3);
-    fails(x, 3, "hearer 0 beside 0;", 2, 16);
-    fails(x, 3, "hearer 3 beside 0;", 2, 7);
-    fails(x, 3, "hearer 0 beside 3;", 2, 16);
-    fails(x, 3, "hearer 0 hearer 1;", 1, 9);
-    fails(x, 3, "beside 0;", 1, 0);
-    reads(x, 3, times(16, "hearer 0 beside 1;"), 16);
-    fails(x, 3, times(17, "hearer 0 beside 1;"), 3, 288);
-    Encores none = new Encores();
+  private static void plainTexts() {
+    reads(2, "at 0 deed 0; at 9999 deed 1;", 2);
+    fails(2, "at", 1, 2);
+    fails(2, "at 1 deed 2;", 2, 10);
+    fails(2, "at 10000 deed 0;", 1, 3);
+    fails(2, "at 1;", 1, 4);
+    fails(2, "at 1 0;", 1, 5);
+    fails(2, "deed 0;", 1, 0);
+    fails(2, "at deed 0;", 1, 3);
+    reads(2, times(16, "at 1 deed 0;"), 16);
+    fails(2, times(17, "at 1 deed 0;"), 3, 192);
+    reads(3, "hearer 0 beside 1; hearer 1 beside 0; hearer 0 beside 1;", 3);
+    fails(3, "hearer 0 beside 0;", 2, 16);
+    fails(3, "hearer 3 beside 0;", 2, 7);
+    fails(3, "hearer 0 beside 3;", 2, 16);
+    fails(3, "hearer 0 hearer 1;", 1, 9);
+    fails(3, "beside 0;", 1, 0);
+    reads(3, times(16, "hearer 0 beside 1;"), 16);
+    fails(3, times(17, "hearer 0 beside 1;"), 3, 288);
+    Counted none = new Counted();
     fails(none, 3, "hearer 0 beside 1;", 2, 7);
     fails(none, 2, "at 0 deed 0;", 2, 10);
     fails(none, 1, "double 0;", 2, 7);
+    Counted x = row();
     due("another what", x.fault(2), NONE);
     due("another what", x.fault(-1), NONE);
     // THE LAW and what failed forget nothing, the other texts do
@@ -585,17 +572,17 @@ public final class PromiseTest {
     for (int k = 0; k < 4; k++) {
       x.pay(0, 1);
       int before = x.look(16);
-      text(x, k, "at");
+      x.text(k, "at");
       due("a fault forgets nothing", x.look(16), before);
-      text(x, k, "");
+      x.text(k, "");
       due("what can be undone", x.look(16), k == 0 ? before : 0);
     }
   }
 
   private static void ofs() {
-    Encores x = row();
-    text(x, 1, "double 1; double 1;");
-    text(x, 0, "clap hearer*100+hands*10+likes-manners+paid*2 when worth>5; clap beside+wear+agains+late;");
+    Counted x = row();
+    x.text(1, "double 1; double 1;");
+    x.text(0, "clap hearer*100+hands*10+likes-manners+paid*2 when worth>5; clap beside+wear+agains+late;");
     int[] dues = {3, 4, 2, 1, 0, 0, 5, 2, NONE, NONE, 132, 0, NONE};
     for (int what = 0; what < dues.length; what++) due("of 1, " + what, x.of(1, what), dues[what]);
     x.pay(1, 7);
@@ -607,37 +594,37 @@ public final class PromiseTest {
     due("another what", x.of(0, GREATEST), NONE);
     due("no such", x.of(3, 0), NONE);
     due("no such", x.of(-1, 0), NONE);
-    text(x, 0, "clap 2000 when hearer=0; clap 0-1;");
+    x.text(0, "clap 2000 when hearer=0; clap 0-1;");
     due("1000 at most", x.of(0, 10), 1000);
     due("0 at least", x.of(1, 10), 0);
-    text(x, 0, "loud 1;");
+    x.text(0, "loud 1;");
     due("without a line", x.of(0, 10), 900);
-    text(x, 0, "clap 1 when 1=2;");
+    x.text(0, "clap 1 when 1=2;");
     due("no line is so", x.of(0, 10), 900);
-    text(x, 0, "clap 7 - 3 - 1 + 2 * 3 * 2 / 5 / 2;");
+    x.text(0, "clap 7 - 3 - 1 + 2 * 3 * 2 / 5 / 2;");
     due("from the left", x.of(0, 10), 4);
-    text(x, 0, "clap 100 + (0);");
-    text(x, 0, "clap 100 + 0*9 - 7 / 2 + likes;");
+    x.text(0, "clap 100 + (0);");
+    x.text(0, "clap 100 + 0*9 - 7 / 2 + likes;");
     due("quotients", x.of(0, 10), 106);
-    text(x, 0, "clap (1);");
-    text(x, 0, "clap 10 when not 1=1 and 1=1 or 2<1; clap 20 when not (1=1 and 1=2) and 3>2; clap 30;");
+    x.text(0, "clap (1);");
+    x.text(0, "clap 10 when not 1=1 and 1=1 or 2<1; clap 20 when not (1=1 and 1=2) and 3>2; clap 30;");
     due("not binds more than and, and more than or", x.of(0, 10), 20);
-    text(x, 0, "clap 10 when 1=1 or 1=1 and 1=2; clap 20;");
+    x.text(0, "clap 10 when 1=1 or 1=1 and 1=2; clap 20;");
     due("or last", x.of(0, 10), 10);
-    text(x, 0, "clap 500 + (1-1);");
+    x.text(0, "clap 500 + (1-1);");
     // 9999 * 9999 * 22 = 2199560022, wrapped -2095407274
-    text(x, 0, "clap 9999*9999*22;");
+    x.text(0, "clap 9999*9999*22;");
     due("wrapped and held", x.of(0, 10), 0);
-    text(x, 0, "clap 9999*9999*43 / 9999;");
+    x.text(0, "clap 9999*9999*43 / 9999;");
     // 9999 * 9999 * 43 = 4299140043, wrapped 4172747; by 9999: 417
     due("wrapped", x.of(0, 10), 417);
-    text(x, 0, "clap 503 + 9999*9999*22 / 9999 / 9999;");
+    x.text(0, "clap 503 + 9999*9999*22 / 9999 / 9999;");
     // -2095407274 by 9999: -209561; by 9999: -20, towards 0
     due("towards 0", x.of(0, 10), 483);
   }
 
   private static void deedOfs() {
-    Encores x = row();
+    Counted x = row();
     int[] dues = {9, 10, 5, 0, 0, 3, 2, NONE, NONE};
     for (int what = 0; what < dues.length; what++) due("deedOf 0, " + what, x.deedOf(0, what), dues[what]);
     due("another what", x.deedOf(0, -1), NONE);
@@ -645,27 +632,27 @@ public final class PromiseTest {
     due("no such", x.deedOf(2, 0), NONE);
     due("no such", x.deedOf(-1, 5), NONE);
     x.set(5, 0, 40);
-    text(x, 0, "loud worth*10+wear+agains*100+late+hearer+hands+likes+manners+paid+beside; wears 0-1;");
+    x.text(0, "loud worth*10+wear+agains*100+late+hearer+hands+likes+manners+paid+beside; wears 0-1;");
     due("held to 99", x.deedOf(0, 5), 99);
     due("held to 0", x.deedOf(0, 6), 0);
-    text(x, 0, "loud worth+wear+hearer+hands+likes+manners+paid+beside; wears 100;");
+    x.text(0, "loud worth+wear+hearer+hands+likes+manners+paid+beside; wears 100;");
     due("loud", x.deedOf(0, 5), 49);
     due("held to 99", x.deedOf(0, 6), 99);
-    text(x, 0, "loud late; wears agains;");
-    text(x, 1, "most 0;");
+    x.text(0, "loud late; wears agains;");
+    x.text(1, "most 0;");
     for (int i = 0; i < 3; i++) x.perform(1);
     due("late", x.deedOf(0, 5), 1);
     due("agains", x.deedOf(0, 6), 2);
-    text(x, 0, "loud worth/2 when worth>4;");
+    x.text(0, "loud worth/2 when worth>4;");
     due("loud", x.deedOf(0, 5), 4);
     due("no line is so: worth by 3", x.deedOf(1, 5), 1);
   }
 
   private static void statutes() {
-    Encores x = row();
+    Counted x = row();
     due("another what", x.statute(3), NONE);
     due("another what", x.statute(-1), NONE);
-    text(x, 1, "hands 7 from 2; hands 8 from 1; hands 9 from 2; hands 3 from 4; most 3; most 4; end 8; end 7;");
+    x.text(1, "hands 7 from 2; hands 8 from 1; hands 9 from 2; hands 3 from 4; most 3; most 4; end 8; end 7;");
     due("no line yet", x.statute(0), 5);
     due("the last of most", x.statute(1), 4);
     due("the last of end", x.statute(2), 7);
@@ -677,14 +664,14 @@ public final class PromiseTest {
     due("still", x.statute(0), 9);
     x.evenings(1);
     due("from 4", x.statute(0), 3);
-    text(x, 1, "");
+    x.text(1, "");
     due("without any", x.statute(0) * 10000 + x.statute(1) * 1000 + x.statute(2), 59300);
   }
 
   private static void books() {
-    Encores x = row();
-    text(x, 0, "clap 0; loud 9;");
-    text(x, 1, "most 1;");
+    Counted x = row();
+    x.text(0, "clap 0; loud 9;");
+    x.text(1, "most 1;");
     x.evenings(2);
     x.perform(0);
     int[][] dues = {{2, 0, 0, 9}, {2, 1, 0, 9}};
@@ -712,10 +699,10 @@ public final class PromiseTest {
   }
 
   private static void goes() {
-    Encores x = row();
-    text(x, 0, "clap 0;");
-    text(x, 1, "hands 3 from 0; most 2; end 100;");
-    text(x, 2, "at 20 deed 0; at 10 deed 1; at 60 deed 0; at 120 deed 1;");
+    Counted x = row();
+    x.text(0, "clap 0;");
+    x.text(1, "hands 3 from 0; most 2; end 100;");
+    x.text(2, "at 20 deed 0; at 10 deed 1; at 60 deed 0; at 120 deed 1;");
     x.set(0, 0, 1000);
     x.perform(0);
     due("minute", x.goes(0), 120);
@@ -734,17 +721,17 @@ public final class PromiseTest {
     x.goes(0);
     due("no draws", x.look(10), state);
     // each one's own is 500: a clap of 500 is none, of 501 one
-    Encores y = people(9, 1);
-    text(y, 2, "at 0 deed 0;");
-    text(y, 1, "most 1;");
-    text(y, 0, "clap 500;");
+    Counted y = people(9, 1);
+    y.text(2, "at 0 deed 0;");
+    y.text(1, "most 1;");
+    y.text(0, "clap 500;");
     due("500", y.goes(10), 1);
-    text(y, 0, "clap 501;");
+    y.text(0, "clap 501;");
     due("501", y.goes(10), 2);
   }
 
   private static void settles() {
-    Encores x = row();
+    Counted x = row();
     due("who", x.settles(0, 0), 5);
     due("rounds", x.settles(0, 1), 1);
     due("hands", x.settles(0, 2), 6);
@@ -752,7 +739,7 @@ public final class PromiseTest {
     due("another what", x.settles(0, -1), NONE);
     due("no such", x.settles(2, 0), NONE);
     due("no such", x.settles(-1, 0), NONE);
-    text(x, 0, "clap 600 when agains=2 and late=0 and wear=6; clap 0; loud agains;");
+    x.text(0, "clap 600 when agains=2 and late=0 and wear=6; clap 0; loud agains;");
     due("nobody", x.settles(0, 0), 0);
     due("no rounds", x.settles(0, 1), 0);
     due("no hands", x.settles(0, 2), 0);
@@ -765,16 +752,16 @@ public final class PromiseTest {
     x.glove(0, true);
     x.let(1, false);
     due("only 2", x.settles(0, 0), 4);
-    text(x, 1, "double 2;");
+    x.text(1, "double 2;");
     due("counted twice", x.settles(0, 2), 4);
   }
 
   private static void makes() {
-    Encores x = row();
+    Counted x = row();
     // hands 2 and 1 of 0 and 2 and loud 3 make 6: over 5, by 9 agains at most, till 300
     due("once", x.makes(0, 1, 0), 1);
     due("by sending 0", x.makes(0, 1, 1), 1);
-    text(x, 1, "most 1;");
+    x.text(1, "most 1;");
     due("twice as it is", x.makes(0, 2, 0), 0);
     due("nobody sent", x.makes(0, 2, 1), 0);
     due("never thrice", x.makes(0, 3, 0), NONE);
@@ -782,18 +769,18 @@ public final class PromiseTest {
     int[][] bad = {{0, 0, 0}, {0, 6, 0}, {0, 1, 2}, {0, 1, -1}, {2, 1, 0}, {-1, 1, 0}, {0, LEAST, 0}};
     for (int[] b : bad) due("a wrong one", x.makes(b[0], b[1], b[2]), NONE);
     // clap falls with agains: 0 goes on for two agains, 2 for one more
-    text(x, 0, "clap 600 when hearer=0 and agains<2 or hearer=2 and agains<3; clap 0; loud 4;");
-    text(x, 1, "most 9;");
+    x.text(0, "clap 600 when hearer=0 and agains<2 or hearer=2 and agains<3; clap 0; loud 4;");
+    x.text(1, "most 9;");
     due("four times", x.makes(0, 4, 0), 0);
     due("three times by 2 away", x.makes(0, 3, 1), 4);
     due("once by 0 and 2 away", x.makes(0, 1, 1), 5);
     due("twice by none", x.makes(0, 2, 0), NONE);
     due("five times by none", x.makes(0, 5, 0), NONE);
     // of several the least
-    text(x, 0, "clap 600; loud 0;");
-    text(x, 1, "hands 4 from 0; most 1;");
+    x.text(0, "clap 600; loud 0;");
+    x.text(1, "hands 4 from 0; most 1;");
     due("once", x.makes(1, 1, 1), 2);
-    text(x, 1, "hands 6 from 0; most 1;");
+    x.text(1, "hands 6 from 0; most 1;");
     due("once", x.makes(1, 1, 1), 1);
     x.let(0, false);
     due("only those there", x.makes(1, 1, 1), 0);
@@ -801,7 +788,7 @@ public final class PromiseTest {
   }
 
   private static void fills() {
-    Encores x = new Encores();
+    Counted x = new Counted();
     due("without deeds", x.fills(1, 0), 0);
     due("without deeds", x.fills(1, 1), 0);
     x.deed(5, 20, 0);
@@ -823,7 +810,7 @@ public final class PromiseTest {
   }
 
   private static void lines() {
-    Encores x = new Encores();
+    Counted x = new Counted();
     due("without", x.lines(0, 0), 0);
     due("without", x.lines(0, 1), NONE);
     due("other bits", x.lines(1, 0), NONE);
@@ -848,7 +835,7 @@ public final class PromiseTest {
 
   private static void claques() {
     promise = 24;
-    Encores x = row();
+    Counted x = row();
     x.pay(0, 1);
     int[][] bad = {{8, 1}, {-2, 1}, {1, 13}, {1, -1}, {LEAST, 0}, {GREATEST, 0}};
     for (int[] b : bad) due("a wrong claque", x.claque(b[0], b[1]), NONE);
@@ -891,8 +878,8 @@ public final class PromiseTest {
   private static void seats() {
     promise = 26;
     // two ways from 0 to 3: by 1, or by 2; and 4 alone
-    Encores x = people(5, 1);
-    text(x, 3, "hearer 0 beside 1; hearer 1 beside 3; hearer 0 beside 2; hearer 3 beside 2;");
+    Counted x = people(5, 1);
+    x.text(3, "hearer 0 beside 1; hearer 1 beside 3; hearer 0 beside 2; hearer 3 beside 2;");
     due("both", x.cuts(0, 3, 0), 2);
     due("both", x.cuts(3, 0, 1), 6);
     due("not joined", x.cuts(0, 4, 0), 0);
@@ -908,7 +895,7 @@ public final class PromiseTest {
     due("1 and 2 by 0 alone", x.cuts(1, 2, 0), 0);
     int[][] bad = {{0, 1, 0}, {1, 0, 1}, {0, 0, 0}, {5, 0, 0}, {0, 5, 0}, {-1, 0, 0}, {0, -1, 0}, {0, 3, 2}, {0, 3, -1}};
     for (int[] b : bad) due("a wrong one", x.cuts(b[0], b[1], b[2]), NONE);
-    text(x, 3, "hearer 0 beside 1; hearer 1 beside 2; hearer 2 beside 3; hearer 3 beside 4;");
+    x.text(3, "hearer 0 beside 1; hearer 1 beside 2; hearer 2 beside 3; hearer 3 beside 4;");
     x.glove(0, false);
     x.glove(1, false);
     x.glove(3, false);
@@ -925,20 +912,20 @@ public final class PromiseTest {
     promise = 35;
     due("one group", x.groups(0), 1);
     due("all", x.groups(1), 31);
-    text(x, 3, "hearer 4 beside 2; hearer 1 beside 0;");
+    x.text(3, "hearer 4 beside 2; hearer 1 beside 0;");
     due("three", x.groups(0), 3);
     due("that with the least", x.groups(1), 3);
-    text(x, 3, "hearer 4 beside 2; hearer 3 beside 2;");
+    x.text(3, "hearer 4 beside 2; hearer 3 beside 2;");
     due("the greatest", x.groups(1), 28);
     due("another what", x.groups(2), NONE);
     due("another what", x.groups(-1), NONE);
-    due("without hearers", new Encores().groups(0), 0);
-    due("without hearers", new Encores().groups(1), 0);
+    due("without hearers", new Counted().groups(0), 0);
+    due("without hearers", new Counted().groups(1), 0);
   }
 
   private static void meanings() {
     promise = 28;
-    Encores x = new Encores();
+    Counted x = new Counted();
     x.evenings(1);
     int[][] bad = {{-1, 0}, {10, 0}, {0, -1}, {0, 10}};
     for (int[] b : bad) due("a wrong one", x.means(b[0], b[1]), false);
@@ -970,7 +957,7 @@ public final class PromiseTest {
   }
 
   private static void shares() {
-    Encores x = row();
+    Counted x = row();
     // 10, 5 and 7 parts of 22
     int[] dues = {5, 2, 3};
     for (int h = 0; h < 3; h++) due("share of 10", x.share(10, h), dues[h]);
@@ -981,7 +968,7 @@ public final class PromiseTest {
     due("of 15", x.share(10, 0), 7);
     due("of 15", x.share(10, 1), 3);
     // of equal rests the least one
-    Encores y = people(3, 0);
+    Counted y = people(3, 0);
     due("equal", y.share(4, 0), 2);
     due("equal", y.share(4, 1), 1);
     due("equal", y.share(5, 1), 2);
@@ -992,11 +979,11 @@ public final class PromiseTest {
     due("no such", y.share(1, -1), NONE);
     for (int h = 0; h < 3; h++) y.let(h, false);
     due("nobody", y.share(1, 0), NONE);
-    due("nobody", new Encores().share(1, 0), NONE);
+    due("nobody", new Counted().share(1, 0), NONE);
   }
 
   private static void brides() {
-    Encores x = people(12, 0);
+    Counted x = people(12, 0);
     due("no paid ones", x.brides(), 1);
     for (int h = 0; h < 5; h++) x.pay(h, 1);
     due("7 * 6 * 5 * 4 * 3", x.brides(), 2520);
@@ -1006,11 +993,11 @@ public final class PromiseTest {
     due("6 * 5 * 4 * 3 * 2", x.brides(), 720);
     x.let(6, false);
     due("5!", x.brides(), 120);
-    due("nobody", new Encores().brides(), 1);
+    due("nobody", new Counted().brides(), 1);
   }
 
   private static void games() {
-    Encores x = new Encores();
+    Counted x = new Counted();
     due("no deeds", x.game(0), NONE);
     x.deed(0, 7, 0);
     due("seven is lost", x.game(0), NONE);
@@ -1024,7 +1011,7 @@ public final class PromiseTest {
     // 0, 1 and 2: 7 can't become one with 3, but 10 one with 2: 6
     due("the second", x.game(0), 1);
     due("how many", x.game(1), 4);
-    Encores z = new Encores();
+    Counted z = new Counted();
     z.deed(0, 2, 0);
     z.deed(0, 2, 0);
     z.deed(0, 10, 0);
@@ -1034,14 +1021,14 @@ public final class PromiseTest {
     due("another what", x.game(-1), NONE);
     int[] takes = {1, NONE, 1, 4, 3, 4, NONE, 1, NONE, 1, 4, 3, 4, NONE};
     for (int n = 1; n <= takes.length; n++) {
-      Encores y = new Encores();
+      Counted y = new Counted();
       y.deed(0, n, 0);
       due("of " + n, y.game(1), takes[n - 1]);
     }
   }
 
   private static void brakes() {
-    Encores x = row();
+    Counted x = row();
     due("one", x.brakes(0, 0), 1);
     due("the first", x.brakes(0, 1), 1);
     due("once as it is", x.brakes(1, 0), 0);
@@ -1049,21 +1036,21 @@ public final class PromiseTest {
     due("no such", x.brakes(-1, 0), NONE);
     due("another what", x.brakes(0, 2), NONE);
     due("another what", x.brakes(0, -1), NONE);
-    text(x, 0, "clap 600; loud 0;");
-    text(x, 1, "hands 1 from 0;");
+    x.text(0, "clap 600; loud 0;");
+    x.text(1, "hands 1 from 0;");
     due("all three", x.brakes(0, 1), 7);
     x.glove(1, true);
     due("those without", x.brakes(0, 1), 5);
     x.let(0, false);
     due("those there", x.brakes(0, 1), 4);
     due("nothing stays", x.of(2, 4), 0);
-    text(x, 0, "loud 1;");
+    x.text(0, "loud 1;");
     due("by none", x.brakes(0, 0), NONE);
     due("by none", x.brakes(0, 1), NONE);
   }
 
   private static void eagers() {
-    Encores x = row();
+    Counted x = row();
     due("who", x.eager(0, 0), 0);
     due("how much", x.eager(0, 1), 900);
     x.glove(0, true);
@@ -1076,10 +1063,10 @@ public final class PromiseTest {
     due("nobody", x.eager(0, 1), NONE);
     x.glove(0, false);
     x.glove(1, false);
-    text(x, 0, "clap 7-beside;");
+    x.text(0, "clap 7-beside;");
     due("of several the least", x.eager(1, 0), 0);
     due("how much", x.eager(1, 1), 7);
-    text(x, 0, "clap 0;");
+    x.text(0, "clap 0;");
     due("none claps", x.eager(1, 0), 0);
     due("no such", x.eager(2, 0), NONE);
     due("no such", x.eager(-1, 0), NONE);
@@ -1088,22 +1075,22 @@ public final class PromiseTest {
   }
 
   private static void prices() {
-    Encores x = row();
+    Counted x = row();
     due("none does", x.price(1, 0), NONE);
     due("is above", x.price(0, 0), 0);
-    text(x, 0, "clap 401+paid;");
+    x.text(0, "clap 401+paid;");
     due("all of 99 and one", x.price(0, 0), NONE);
-    text(x, 0, "clap 402+paid;");
+    x.text(0, "clap 402+paid;");
     due("all of 99", x.price(0, 0), 99);
     x.pay(0, 90);
     due("9 more", x.price(0, 0), 9);
     x.let(0, false);
     x.glove(0, true);
     due("there or not, with gloves or not", x.price(0, 0), 9);
-    text(x, 0, "clap 401+paid;");
+    x.text(0, "clap 401+paid;");
     due("99 is not enough", x.price(0, 0), NONE);
     due("paid stays", x.of(0, 5), 90);
-    text(x, 0, "clap paid * 999 when paid = 3;");
+    x.text(0, "clap paid * 999 when paid = 3;");
     due("just three", x.price(1, 0), 3);
     due("no such", x.price(3, 0), NONE);
     due("no such", x.price(-1, 0), NONE);
@@ -1112,11 +1099,11 @@ public final class PromiseTest {
   }
 
   private static void gains() {
-    Encores x = row();
+    Counted x = row();
     due("0 and 2 clap", x.gain(0), 2);
-    text(x, 0, "clap 600 when hearer = 0; clap 0;");
+    x.text(0, "clap 600 when hearer = 0; clap 0;");
     due("0 claps", x.gain(0), 1);
-    text(x, 0, "clap 600;");
+    x.text(0, "clap 600;");
     due("all clap", x.gain(0), 0);
     x.let(1, false);
     due("1 is away", x.gain(0), 2);
@@ -1125,7 +1112,7 @@ public final class PromiseTest {
   }
 
   private static void bargains() {
-    Encores x = new Encores();
+    Counted x = new Counted();
     due("without", x.bargain(0), NONE);
     due("without", x.bargain(1), NONE);
     x.deed(0, 1, 0);
@@ -1145,7 +1132,7 @@ public final class PromiseTest {
   }
 
   private static void calms() {
-    Encores x = row();
+    Counted x = row();
     due("who", x.calm(0), 2);
     due("sum", x.calm(1), 6);
     due("one does not clap", x.calm(10), 1);
@@ -1169,21 +1156,21 @@ public final class PromiseTest {
   }
 
   private static void tireds() {
-    Encores x = row();
+    Counted x = row();
     due("two each time", x.tires(0), 50);
     x.set(5, 0, 99);
     due("at once", x.tires(0), 0);
     x.set(5, 0, 0);
-    text(x, 0, "wears 1;");
+    x.text(0, "wears 1;");
     due("99 times", x.tires(0), 99);
-    text(x, 0, "wears 0;");
+    x.text(0, "wears 0;");
     due("never", x.tires(0), NONE);
-    text(x, 0, "wears 1 when agains > 0; wears 0;");
+    x.text(0, "wears 1 when agains > 0; wears 0;");
     due("98 in 99 times", x.tires(0), NONE);
-    text(x, 1, "most 0;");
+    x.text(1, "most 0;");
     x.perform(0);
     due("now it is in a row", x.tires(0), 99);
-    text(x, 0, "wears 50 when late = 1; wears 0;");
+    x.text(0, "wears 50 when late = 1; wears 0;");
     due("late by doing: behind 60 minutes", x.tires(0), 7);
     due("nothing stays", x.look(2) == 10 && x.deedOf(0, 4) == 1 && x.deedOf(0, 3) == 0, true);
     due("no such", x.tires(2), NONE);
@@ -1191,9 +1178,9 @@ public final class PromiseTest {
   }
 
   private static void undos() {
-    Encores x = row();
-    text(x, 1, "most 0;");
-    text(x, 2, "at 5 deed 0;");
+    Counted x = row();
+    x.text(1, "most 0;");
+    x.text(2, "at 5 deed 0;");
     x.state(77);
     due("nothing", x.undo(), false);
     x.perform(1);
@@ -1202,7 +1189,7 @@ public final class PromiseTest {
     x.let(0, false);
     int state = x.look(10);
     x.evenings(1);
-    text(x, 0, "clap 1; loud 2;");
+    x.text(0, "clap 1; loud 2;");
     x.claque(1, 1);
     x.means(0, 5);
     due("five", x.look(16), 5);
@@ -1238,10 +1225,10 @@ public final class PromiseTest {
   }
 
   private static void images() {
-    Encores x = row();
-    text(x, 0, "clap 1;");
-    text(x, 1, "most 3; double 1;");
-    text(x, 2, "at 5 deed 0;");
+    Counted x = row();
+    x.text(0, "clap 1;");
+    x.text(1, "most 3; double 1;");
+    x.text(2, "at 5 deed 0;");
     x.claque(1, 1);
     x.means(0, 5);
     x.state(9);
@@ -1257,10 +1244,10 @@ public final class PromiseTest {
       x.perform(1);
       x.glove(0, true);
       x.let(1, false);
-      text(x, 0, "");
-      text(x, 1, "");
-      text(x, 2, "");
-      text(x, 3, "");
+      x.text(0, "");
+      x.text(1, "");
+      x.text(2, "");
+      x.text(3, "");
       x.claque(NONE, 0);
       x.means(0, 6);
       x.set(0, 0, 4);
@@ -1293,14 +1280,14 @@ public final class PromiseTest {
   }
 
   private static void looks() {
-    Encores x = row();
+    Counted x = row();
     due("another what", x.look(17), FAR);
     due("another what", x.look(-1), FAR);
     due("another what", x.look(LEAST), FAR);
     due("another what", x.look(GREATEST), FAR);
-    text(x, 0, "loud 1;");
-    text(x, 1, "most 1; most 0;");
-    text(x, 2, "at 0 deed 1; at 0 deed 1; at 0 deed 1;");
+    x.text(0, "loud 1;");
+    x.text(1, "most 1; most 0;");
+    x.text(2, "at 0 deed 1; at 0 deed 1; at 0 deed 1;");
     x.set(0, 0, 12);
     x.state(5);
     x.evenings(1);
@@ -1358,6 +1345,7 @@ public final class PromiseTest {
   }
 
   public static void main(String[] args) {
+    Watch.over("PromiseTest");
     told();
     thought();
     System.out.println(checks + " checks, " + wrong + " wrong");

@@ -313,6 +313,7 @@ public final class RefusedTest {
   }
 
   public static void main(String[] args) {
+    Watch.over("RefusedTest");
     refusedTellings();
     refusedDoings();
     refusedTexts();
