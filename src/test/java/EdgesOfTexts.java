@@ -123,6 +123,22 @@ final class EdgesOfTexts {
       fails(0, "loud 1a;", 1, 6);
       fails(0, "loud notes;", 1, 5);
       fails(0, "loud 1 when not1=1 andnot 1=1;", 1, 19);
+      // each with one letter that is another, with one less, with one more
+      String[] texts = {"loud 1; clap hearer+hands+likes+manners+paid+worth+wear+agains+beside+late; wears 1 when not 1=1 and 1=1 or 1=1;",
+        "hands 1 from 0; most 1; double 0; end 1;", "at 1 deed 0;", "hearer 0 beside 1;"};
+      for (int k = 0; k <= 3; k++) {
+        reads(k, texts[k], k == 0 ? 3 : k == 1 ? 4 : 1);
+        for (int i = 0; i < texts[k].length(); i++) {
+          if (!Character.isLetter(texts[k].charAt(i))) continue;
+          int from = i;
+          while (from > 0 && Character.isLetter(texts[k].charAt(from - 1))) from--;
+          fails(k, texts[k].substring(0, i) + "x" + texts[k].substring(i + 1), 1, from);
+          fails(k, texts[k].substring(0, i) + "x" + texts[k].substring(i), 1, from);
+          String less = texts[k].substring(0, i) + texts[k].substring(i + 1);
+          // of wears without its s stays a KEYWORD, though no line begins with it
+          fails(k, less, 1, from);
+        }
+      }
       // those of the other texts
       String[] others = {"from", "most", "double", "end", "at", "deed"};
       for (String other : others) fails(0, "loud " + other + ";", 1, 5);

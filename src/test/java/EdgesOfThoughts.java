@@ -290,6 +290,7 @@ final class EdgesOfThoughts {
       due("no DEEDS", x.lines(0, 1), NONE);
       due("all", x.lines(255, 0), 3 * 10 * 36);
       due("the last one", x.lines(128, 1), 7);
+      for (int d = 0; d < 8; d++) due("one alone", x.lines(1 << d, 0) * 10 + x.lines(1 << d, 1), 300 + d);
       for (int set : new int[] {256, -1, 511, 1 << 30, LEAST, GREATEST}) {
         due("set " + set, x.lines(set, 0), NONE);
         due("set " + set, x.lines(set, 1), NONE);
