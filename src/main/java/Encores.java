@@ -133,6 +133,7 @@ public final class Encores {
   private static final int RIGHT = 2;
 
   // Grundy's numbers of a heap from which 1, 3 or 4 are taken come again after seven
+  private static final int HEAP_ROUND = 7;
   private static final int[] HEAP = {0, 1, 0, 1, 2, 3, 2};
 
   private final House house;
@@ -852,7 +853,7 @@ public final class Encores {
     Table(int most, int wide) {
       this.most = Math.max(0, most);
       this.wide = Math.max(1, wide);
-      cells = new int[this.most * this.wide];
+      cells = new int[Math.max(0, this.most * this.wide)];
       lines = 0;
     }
 
@@ -2044,7 +2045,7 @@ public final class Encores {
     }
 
     private static int grundy(int minutes) {
-      int i = minutes >= 0 ? minutes % HEAP.length : 0;
+      int i = minutes >= 0 ? minutes % HEAP_ROUND : 0;
       return i >= 0 && i < HEAP.length ? HEAP[i] : 0;
     }
   }

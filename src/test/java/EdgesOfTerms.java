@@ -587,6 +587,33 @@ final class EdgesOfTerms {
       y.text(1, "hands 3 from 0; most 2; end 31;");
       due("and once the second", y.evenings(1), 4);
     });
+    e.edge(10, "MINUTE is its MINUTE, if that is more; if that is below end, its DEED is done, with all agains.", () -> {
+      // LONG of what begins below end is all in MINUTE, above 9999 too
+      int[][] rows = {{9938, 60, 9998}, {9939, 60, 9999}, {9940, 60, 10000}, {9998, 1, 9999}, {9998, 2, 10000}, {9998, 60, 10058}};
+      for (int[] r : rows) {
+        Counted x = new Counted();
+        x.deed(0, r[1], 1);
+        x.deed(0, 1, 1);
+        x.text(1, "end 9999;");
+        x.text(2, "at " + r[0] + " deed 0; at 9999 deed 1;");
+        int last = Math.max(9999, r[2]);
+        due("in thought from " + r[0], x.goes(0), last);
+        due("once from " + r[0], x.evenings(1), 1);
+        due("MINUTE from " + r[0], x.look(2), last);
+        due("not by hand behind it", x.perform(1), NONE);
+        due("late from " + r[0], lateOf(x), last / 60);
+      }
+      // with agains: the last one begins below end
+      Counted y = new Counted();
+      y.deed(9, 60, 0);
+      y.text(1, "hands 1 from 0; most 20; end 9999;");
+      y.text(2, "at 9819 deed 0;");
+      due("9819, 9879, 9939", y.evenings(1), 3);
+      due("no again at 9999", y.look(2), 9999);
+      y.text(2, "at 9818 deed 0;");
+      due("9818, 9878, 9938, 9998", y.evenings(1), 4);
+      due("an again at 9998", y.look(2), 10058);
+    });
     e.edge(10, "EVENING is one more then (MINUTE, NOW, AGAINS stay as they are till the next one)", () -> {
       Counted x = Edges.people(0, 2);
       x.text(2, "at 7 deed 1; at 20 deed 1;");
@@ -600,6 +627,12 @@ final class EdgesOfTerms {
       due("by hand it goes on", x.look(7), 2);
       due("THE BOOK has the EVENING of now", x.book(2, 0), 1);
     });
+  }
+
+  /** late, as THE LAW tells it now. */
+  private static int lateOf(Counted x) {
+    x.text(0, "wears late / 2; loud late - late / 2;");
+    return x.deedOf(0, 5) + x.deedOf(0, 6);
   }
 
   private static void paying(Edges e) {

@@ -22,6 +22,7 @@ final class EdgesOfThoughts {
 
   static void all(Edges e) {
     own(e);
+    late(e);
     stays(e);
     goes(e);
     settles(e);
@@ -65,6 +66,35 @@ final class EdgesOfThoughts {
         due("price at " + r[0], x.price(0, 0), r[1] == 1 ? 0 : NONE);
         due("calm at " + r[0], x.calm(10), 1 - r[1]);
         due("STATE", x.look(10), 0);
+      }
+    });
+  }
+
+  private static void late(Edges e) {
+    e.edge(6, "or MINUTE would not be below 9999 behind 21 times", () -> {
+      // where doing it by hand is refused, thoughts of it are not; it ends at MINUTE 9999
+      int[][] rows = {{9788, 3}, {9789, NONE}, {9988, NONE}, {9989, NONE}, {9999, NONE}};
+      for (int[] r : rows) {
+        Counted x = Edges.people(2, 1);
+        x.text(0, "clap 1000;");
+        x.text(2, "at " + r[0] + " deed 0;");
+        x.text(3, "hearer 0 beside 1;");
+        x.glove(1, true);
+        x.evenings(1);
+        x.text(1, "hands 2 from 0; most 2; end 9999;");
+        String at = " at " + r[0];
+        boolean ends = r[0] + 10 >= 9999;
+        due("MINUTE", x.look(2), r[0]);
+        due("who claps" + at, x.settles(0, 0), 1);
+        due("rounds" + at, x.settles(0, 1), 1);
+        due("hands" + at, x.settles(0, 2), 2);
+        due("gain" + at, x.gain(0), 1);
+        due("calm" + at, x.calm(10), 1);
+        due("tires" + at, x.tires(0), 50);
+        due("once" + at, x.makes(0, 1, 0), ends ? 0 : 1);
+        due("brakes" + at, x.brakes(0, 1), ends ? 0 : 1);
+        due("three times" + at, x.makes(0, 3, 0), r[0] + 20 >= 9999 ? NONE : 0);
+        due("by hand" + at, x.perform(0), r[1]);
       }
     });
   }
@@ -349,6 +379,12 @@ final class EdgesOfThoughts {
       due("none of one", x.claque(NONE, 0), 0);
       due("told", x.look(15), 0);
       due("all sets", x.fits(0), 8);
+      for (int many : new int[] {-1, 1, 12, 13, LEAST, GREATEST}) {
+        for (int i = 1; i <= 8; i++) due("told", x.claque(7, 2), i);
+        due("none, whatever so many is: " + many, x.claque(NONE, many), 0);
+        due("told", x.look(15), 0);
+        due("all sets again", x.fits(0), 8);
+      }
     });
   }
 
